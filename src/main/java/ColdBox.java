@@ -23,14 +23,15 @@ public final class ColdBox {
     private static final int TEXT_MOST = 300, FIGURES_MOST = 3, OPENINGS_MOST = 12, OPEN_TICKS_MOST = 20;
 
     // What is COUNTED, as count() and heat() number it.
-    private static final int TICK = 0, USED = 1, STARTS = 2, TICKS_ON = 3, WET = 4, FUR = 5, DRAINED = 6, PASSED = 7, COUNTS = 8;
+    private static final int TICK = 0, USED = 1, STARTS = 2, TICKS_ON = 3;
+    private static final int WET = 4, FUR = 5, DRAINED = 6, PASSED = 7, COUNTS = 8;
     private static final int CAME_IN = 1, PUT_IN = 2, BY_LAMP = 3, MOVED = 4, TAKEN = 5, HEATS = 6;
 
     private static final int SIGNS = 7, SIGN_DAYS = 6, SIGN_USED = 6, EXACT_UNSEEN = 50, HALVINGS_MOST = 20;
     private static final long MILLION = 1000000;
     private static final int[] COULD_BE = {0, 1, 2, 4, 8, 16, 32, 64, 3, 5, 9, 17, 33, 65, 6, 10, 18, 34, 66,
         12, 20, 36, 68, 24, 40, 72, 48, 80, 96};
-    private static final int MAKES_DAYS = 30, ICE_DAYS = 20, YEARS_MOST = 30, YEAR_DAYS = 365;
+    private static final int MAKES_DAYS = 30, ICE_DAYS = 20, USE_DAYS = 2, YEARS_MOST = 30, YEAR_DAYS = 365;
     private static final int LYING_FOODS = 6, WITHOUT_TICKS = 864, STORED_MOST = 40, STORED_STEP = 5;
 
     private final Reader reader = new Reader();
@@ -166,7 +167,7 @@ public final class ColdBox {
     public int run(int n) {
         if (n < 1 || n > 2880) return OUTSIDE;
         int before = now.counts[TICKS_ON];
-        for (int t = 0; t < n; t++) ticker.passByDay(now, build.numbers[BULB], 0);
+        ticker.passByDay(now, n, build.numbers[BULB]);
         return now.counts[TICKS_ON] - before;
     }
 
@@ -209,7 +210,9 @@ public final class ColdBox {
 
     public int sign(int set, int n, int what) {
         if (!isSet(set) || !isSign(what)) return UNKNOWN;
-        return areSignDays(n) ? freshRuns.signOf(set, n, what) : OUTSIDE;
+        if (!areSignDays(n)) return OUTSIDE;
+        freshRuns.learn(set, n);
+        return freshRuns.signOf(set, n, what);
     }
 
     public int seen(int what, int v, int e) {
@@ -245,21 +248,29 @@ public final class ColdBox {
 
     public int odds(int set, int n) {
         if (!isSet(set) || Integer.bitCount(set) > 2) return UNKNOWN;
-        return areSignDays(n) ? guess.oddsOf(set, n) : OUTSIDE;
+        if (!areSignDays(n)) return OUTSIDE;
+        freshRuns.learnCouldBe(n);
+        return guess.oddsOf(set, n);
     }
 
     public int each(int k, int n) {
         if (!isTrouble(k)) return UNKNOWN;
-        return areSignDays(n) ? guess.oddsWith(k, n) : OUTSIDE;
+        if (!areSignDays(n)) return OUTSIDE;
+        freshRuns.learnCouldBe(n);
+        return guess.oddsWith(k, n);
     }
 
     public int tells(int what, int n) {
         if (!isSign(what)) return UNKNOWN;
-        return areSignDays(n) ? guess.howMuchTells(what, n) : OUTSIDE;
+        if (!areSignDays(n)) return OUTSIDE;
+        freshRuns.learnCouldBe(n);
+        return guess.howMuchTells(what, n);
     }
 
     public int next(int n) {
-        return areSignDays(n) ? guess.nextSign(n) : OUTSIDE;
+        if (!areSignDays(n)) return OUTSIDE;
+        freshRuns.learnCouldBe(n);
+        return guess.nextSign(n);
     }
 
     public int makes(int set, int what) {
@@ -286,17 +297,23 @@ public final class ColdBox {
     }
 
     public int year(int set) {
-        return isSet(set) ? purse.yearOf(set, now.current) : UNKNOWN;
+        if (!isSet(set)) return UNKNOWN;
+        freshRuns.learn(set, USE_DAYS);
+        return purse.yearOf(set, now.current);
     }
 
     public int saves(int set, int part) {
         if (!isSet(set) || !isSet(part)) return UNKNOWN;
-        return isPart(part, set) ? purse.saved(set, part, now.current) : NOT;
+        if (!isPart(part, set)) return NOT;
+        freshRuns.learn(set, USE_DAYS);
+        freshRuns.learn(set & ~part, USE_DAYS);
+        return purse.saved(set, part, now.current);
     }
 
     public int best(int set, int c, int what) {
         if (!isSet(set)) return UNKNOWN;
         if (c < 0 || c > 9999 || what < 0 || what > 2) return OUTSIDE;
+        freshRuns.learnParts(set, USE_DAYS);
         int part = purse.bestPart(set, c, now.current);
         switch (what) {
             case 0: return part;
@@ -308,6 +325,7 @@ public final class ColdBox {
     public int pays(int set, int c, int u) {
         if (!isSet(set)) return UNKNOWN;
         if (c < 0 || c > 99999 || u < 0 || u > 9999) return OUTSIDE;
+        freshRuns.learn(set, USE_DAYS);
         return purse.yearsToPay(set, c, u, now.current);
     }
 
@@ -614,7 +632,8 @@ public final class ColdBox {
         int roomOf(State s) {
             int room = numbers[ROOM] * 10;
             int hour = s.tickOfDay() / HOUR_TICKS;
-            if (numbers[STOVE_A] != NONE && numbers[STOVE_A] <= hour && hour < numbers[STOVE_B]) room += numbers[STOVE_N] * 10;
+            boolean heats = numbers[STOVE_A] != NONE && numbers[STOVE_A] <= hour && hour < numbers[STOVE_B];
+            if (heats) room += numbers[STOVE_N] * 10;
             return s.has(PLACED) ? room + 800 : room;
         }
     }
@@ -635,6 +654,10 @@ public final class ColdBox {
                 size = i + 1;
                 for (int t = Math.max(from[i], 0); t < from[i] + lasting[i] && t < DAY_TICKS; t++) open[t] = true;
             }
+        }
+
+        boolean isOpenIn(int tickOfDay) {
+            return tickOfDay >= 0 && tickOfDay < DAY_TICKS && open[tickOfDay];
         }
     }
 
@@ -701,7 +724,7 @@ public final class ColdBox {
         }
 
         int tickOfDay() {
-            return Math.floorMod(counts[TICK], DAY_TICKS);
+            return counts[TICK] % DAY_TICKS;
         }
 
         long allHeat() {
@@ -785,6 +808,7 @@ public final class ColdBox {
     private static final class Ticker {
         private final Build build;
         private final Openings openings;
+        private final int[] warms = new int[CELLS];
         private final long[] gains = new long[CELLS];
 
         Ticker(Build build, Openings openings) {
@@ -792,27 +816,31 @@ public final class ColdBox {
             this.openings = openings;
         }
 
-        /** A TICK with THE DOOR by THE DAY. */
-        void passByDay(State s, int bulb, int less) {
-            int ofDay = s.tickOfDay();
-            pass(s, ofDay >= 0 && ofDay < DAY_TICKS && openings.open[ofDay], bulb, less);
+        /** n TICKS with THE DOOR by THE DAY. */
+        void passByDay(State s, int n, int bulb) {
+            for (int t = 0; t < n; t++) pass(s, openings.isOpenIn(s.tickOfDay()), bulb, 0);
         }
 
         /** A TICK: the bulb on a SHELF, 'on' and 'off' by some tenths less. */
         void pass(State s, boolean open, int bulb, int less) {
+            lookAtWarmths(s);
             int room = build.roomOf(s);
-            int coil = s.warmthOf(COIL);
-            boolean lampGives = s.current && (open || s.has(LIT));
+            int seal = build.sealOf(s);
             switchMachine(s, bulb, less);
-            exchange(s, room, open);
-            if (lampGives) giveLight(s);
-            if (s.on) moveOut(s, room, coil);
-            takeWet(s, open);
+            exchange(s, room, build.numbers[WALL] + seal + (open ? 60 : 0));
+            if (s.current && (open || s.has(LIT))) giveLight(s);
+            if (s.on) moveOut(s, build.powerOf(s) - (room - warms[COIL]) / 8);
+            takeWet(s, seal + (open ? 20 : 0));
             s.counts[TICK]++;
         }
 
+        /** All but the WET goes by WARMTH as it is at the TICK's beginning. */
+        private void lookAtWarmths(State s) {
+            for (int cell = 0; cell < CELLS; cell++) warms[cell] = s.warmthOf(cell);
+        }
+
         private void switchMachine(State s, int bulb, int less) {
-            int warm = s.warmthOf(bulb);
+            int warm = bulb >= 0 && bulb < SHELVES ? warms[bulb] : 0;
             s.reading = s.covered ? s.reading + (warm - s.reading) / 8 : warm;
             boolean was = s.on;
             if (!s.current) {
@@ -826,31 +854,25 @@ public final class ColdBox {
         }
 
         /** All FLOWS are reckoned before the first is done. */
-        private void exchange(State s, int room, boolean open) {
+        private void exchange(State s, int room, int leak) {
             Arrays.fill(gains, 0L);
-            long leak = build.numbers[WALL] + build.sealOf(s) + (open ? 60 : 0);
             for (int shelf = 0; shelf < SHELVES; shelf++) {
-                long in = leak * (room - s.warmthOf(shelf)) / 100;
+                long in = (long) leak * (room - warms[shelf]) / 100;
                 gains[shelf] += in;
                 s.flowed[CAME_IN] += in;
             }
-            for (int shelf = 0; shelf < SHELVES - 1; shelf++) flow(s, MIX, shelf, shelf + 1);
-            long toCoil = build.numbers[COLD] * (long) (s.warmthOf(0) - s.warmthOf(COIL)) / 100;
-            int hindrance = 1000 + Math.max(s.counts[FUR], 0);
-            shift(0, COIL, hindrance > 0 ? toCoil * 1000 / hindrance : 0);
+            for (int shelf = 0; shelf < SHELVES - 1; shelf++) flow(build.numbers[MIX], shelf, shelf + 1, 0);
+            flow(build.numbers[COLD], 0, COIL, s.counts[FUR]);
             for (int f = 0; f < FOODS; f++) {
-                if (s.there[f]) flow(s, FOOD, s.shelves[f], FIRST_FOOD + f);
+                if (s.there[f]) flow(build.numbers[FOOD], s.shelves[f], FIRST_FOOD + f, 0);
             }
             for (int cell = 0; cell < CELLS; cell++) s.heats[cell] += gains[cell];
         }
 
-        private void flow(State s, int number, int from, int to) {
-            if (number < 0 || number >= BOX_NUMBERS) return;
-            shift(from, to, build.numbers[number] * (long) (s.warmthOf(from) - s.warmthOf(to)) / 100);
-        }
-
-        private void shift(int from, int to, long much) {
-            if (from < 0 || from >= CELLS || to < 0 || to >= CELLS) return;
+        private void flow(int ease, int from, int to, int fur) {
+            if (from < 0 || from >= CELLS || to < 0 || to >= CELLS || fur < 0) return;
+            long bare = (long) ease * (warms[from] - warms[to]) / 100;
+            long much = bare * 1000 / (1000 + fur);
             gains[from] -= much;
             gains[to] += much;
         }
@@ -862,8 +884,8 @@ public final class ColdBox {
             s.counts[USED] += build.numbers[LAMP];
         }
 
-        private void moveOut(State s, int room, int coil) {
-            int moved = Math.max(0, build.powerOf(s) - (room - coil) / 8);
+        private void moveOut(State s, int power) {
+            int moved = Math.max(0, power);
             s.heats[COIL] -= moved;
             s.flowed[MOVED] += moved;
             s.counts[TICKS_ON]++;
@@ -871,8 +893,7 @@ public final class ColdBox {
         }
 
         /** By THE COIL's WARMTH of now, behind all that the TICK did to it. */
-        private void takeWet(State s, boolean open) {
-            int wet = build.sealOf(s) + (open ? 20 : 0);
+        private void takeWet(State s, int wet) {
             s.counts[WET] += wet;
             int coil = s.warmthOf(COIL);
             if (coil < 0) {
@@ -888,7 +909,7 @@ public final class ColdBox {
         }
     }
 
-    /** Runs of a SET from FRESH on; SIGNS once reckoned stand until THE BOX or THE DAY is another. */
+    /** Runs of a SET from FRESH on; SIGNS once learned stand until THE BOX or THE DAY is another. */
     private static final class FreshRuns {
         private final Ticker ticker;
         private final State tried = new State();
@@ -903,31 +924,42 @@ public final class ColdBox {
             Arrays.fill(daysKnown, 0);
         }
 
+        /** A SIGN that was learned before. */
         int signOf(int set, int n, int what) {
             if (!isSet(set) || !areSignDays(n) || !isSign(what)) return 0;
-            if (daysKnown[set] < n) learnSigns(set, n);
             return signs[placeOf(set, n) + what];
         }
 
-        private static int placeOf(int set, int n) {
-            return (set * SIGN_DAYS + n - 1) * SIGNS;
+        void learnCouldBe(int n) {
+            for (int i = 0; i < COULD_BE.length; i++) learn(COULD_BE[i], n);
         }
 
-        private void learnSigns(int set, int n) {
+        void learnParts(int set, int n) {
+            for (int part = 0; part <= set; part++) {
+                if (isPart(part, set)) learn(part, n);
+            }
+        }
+
+        void learn(int set, int n) {
+            if (!isSet(set) || !areSignDays(n) || daysKnown[set] >= n) return;
             begin(set, true);
             for (int d = 1; d <= n; d++) {
                 int onBefore = tried.counts[TICKS_ON];
                 int startsBefore = tried.counts[STARTS];
                 int usedBefore = tried.counts[USED];
-                passDay();
-                int i = placeOf(set, d);
-                signs[i] = tried.counts[TICKS_ON] - onBefore;
-                signs[i + 1] = tried.counts[STARTS] - startsBefore;
-                for (int s = 0; s < SHELVES; s++) signs[i + 2 + s] = tried.warmthOf(s);
-                signs[i + 5] = tried.counts[FUR];
-                signs[i + SIGN_USED] = tried.counts[USED] - usedBefore;
+                ticker.passByDay(tried, DAY_TICKS, ticker.build.numbers[BULB]);
+                int place = placeOf(set, d);
+                signs[place] = tried.counts[TICKS_ON] - onBefore;
+                signs[place + 1] = tried.counts[STARTS] - startsBefore;
+                for (int s = 0; s < SHELVES; s++) signs[place + 2 + s] = tried.warmthOf(s);
+                signs[place + 5] = tried.counts[FUR];
+                signs[place + SIGN_USED] = tried.counts[USED] - usedBefore;
             }
             daysKnown[set] = n;
+        }
+
+        private static int placeOf(int set, int n) {
+            return (set * SIGN_DAYS + n - 1) * SIGNS;
         }
 
         /** MAKES. */
@@ -935,7 +967,7 @@ public final class ColdBox {
             begin(set, current);
             for (int d = 1; d <= MAKES_DAYS; d++) {
                 int onBefore = tried.counts[TICKS_ON];
-                passDay();
+                ticker.passByDay(tried, DAY_TICKS, ticker.build.numbers[BULB]);
                 boolean made = ofFur ? tried.counts[FUR] >= FUR_OF_TROUBLE
                     : tried.counts[TICKS_ON] - onBefore == DAY_TICKS;
                 if (made) return d;
@@ -943,17 +975,12 @@ public final class ColdBox {
             return NONE;
         }
 
-        /** USED of the last of two DAYS; FRESH leaves the current as it is, and without it nothing is USED. */
-        int usedOfSecondDay(int set, boolean current) {
-            return current ? signOf(set, 2, SIGN_USED) : 0;
-        }
-
         /** USED over n DAYS, THAWED every p of them (0: never). */
         int usedThawing(int set, int n, int p, boolean current) {
             begin(set, current);
             for (int d = 0; d < n; d++) {
                 if (d > 0 && p > 0 && d % p == 0) tried.letOffIce();
-                passDay();
+                ticker.passByDay(tried, DAY_TICKS, ticker.build.numbers[BULB]);
             }
             return tried.counts[USED];
         }
@@ -962,10 +989,6 @@ public final class ColdBox {
             tried.troubles = set;
             tried.current = current;
             tried.becomeFresh();
-        }
-
-        private void passDay() {
-            for (int t = 0; t < DAY_TICKS; t++) ticker.passByDay(tried, ticker.build.numbers[BULB], 0);
         }
     }
 
@@ -1105,8 +1128,9 @@ public final class ColdBox {
             Arrays.fill(costs, 50);
         }
 
+        /** YEAR of a SET whose SIGNS were learned; FRESH leaves the current as it is, and without it nothing is USED. */
         int yearOf(int set, boolean current) {
-            return yearByUse(runs.usedOfSecondDay(set, current));
+            return current ? yearByUse(runs.signOf(set, USE_DAYS, SIGN_USED)) : 0;
         }
 
         private int yearByUse(int used) {
@@ -1154,21 +1178,17 @@ public final class ColdBox {
         /** THE ICE; a p of n DAYS or more never comes to thaw, and 0 does the same and is less. */
         int bestThawing(int set, int n, int b, boolean current) {
             int found = 0;
-            long least = thawingCost(set, n, 0, b, current);
-            for (int p = 1; p < n; p++) {
-                long cost = thawingCost(set, n, p, b, current);
-                if (cost < least) {
+            long least = 0;
+            for (int p = 0; p < n; p++) {
+                long used = runs.usedThawing(set, n, p, current);
+                int times = p > 0 ? (n - 1) / p : 0;
+                long cost = used * coins / 1000 + (long) times * b;
+                if (p == 0 || cost < least) {
                     found = p;
                     least = cost;
                 }
             }
             return found;
-        }
-
-        private long thawingCost(int set, int n, int p, int b, boolean current) {
-            long used = runs.usedThawing(set, n, p, current);
-            long times = p > 0 ? (n - 1) / p : 0;
-            return used * coins / 1000 + times * b;
         }
     }
 
@@ -1236,9 +1256,10 @@ public final class ColdBox {
 
         private int withinOnSecondDay(int bulb) {
             int sum = 0;
-            for (int t = 0; t < 2 * DAY_TICKS; t++) {
-                ticker.passByDay(tried, bulb, 0);
-                if (t >= DAY_TICKS) sum += tried.foodsWithin();
+            ticker.passByDay(tried, DAY_TICKS, bulb);
+            for (int t = 0; t < DAY_TICKS; t++) {
+                ticker.passByDay(tried, 1, bulb);
+                sum += tried.foodsWithin();
             }
             return sum;
         }
@@ -1247,7 +1268,7 @@ public final class ColdBox {
             tried.copyFrom(now);
             tried.current = false;
             for (int t = 0; t <= WITHOUT_TICKS; t++) {
-                ticker.passByDay(tried, boxBulb(), 0);
+                ticker.passByDay(tried, 1, boxBulb());
                 if (!tried.isWithin(f)) return t;
             }
             return NONE;
@@ -1272,9 +1293,10 @@ public final class ColdBox {
             long paid = 0;
             tried.copyFrom(now);
             for (int t = 0; t < n * DAY_TICKS; t++) {
-                boolean isCheap = isCheapHour(tried.tickOfDay() / HOUR_TICKS);
+                int ofDay = tried.tickOfDay();
+                boolean isCheap = isCheapHour(ofDay / HOUR_TICKS);
                 int before = tried.counts[USED];
-                ticker.passByDay(tried, boxBulb(), isCheap ? d : 0);
+                ticker.pass(tried, ticker.openings.isOpenIn(ofDay), boxBulb(), isCheap ? d : 0);
                 if (tried.foodsWithin() < foods) return NONE;
                 paid += (long) (tried.counts[USED] - before) * (isCheap ? cheapPrice : price);
             }
