@@ -147,6 +147,8 @@ public final class BoxTest {
         oneBoxFault(";", 1, 0);
         oneBoxFault("wall 4;;", 1, 7);
         oneBoxFault("walls 4;", 1, 0);
+        oneBoxFault("wallz 4;", 1, 0);
+        oneBoxFault("ball 4;", 1, 0);
         oneBoxFault("wal l 4;", 1, 0);
         oneBoxFault("  Wall 4;", 1, 2);
         oneBoxFault("waLl 4;", 1, 0);
@@ -228,6 +230,11 @@ public final class BoxTest {
         x.run(7);
         due("none", 0, day(x, "   "));
         due("none now", NONE, x.opening(0, 0));
+        day(x, "open 0 3;");
+        day(x, "");
+        x.fresh();
+        x.run(7);
+        due("never open now", 0, x.heat(3));
         due("THE DAY makes nothing FRESH", 7, x.count(0));
     }
 
@@ -374,6 +381,10 @@ public final class BoxTest {
         due("nothing PUT", 0, x.heat(2));
         due("least", 0, x.put(0, -3000, 1, -3000, -3000));
         due("most", 1, x.put(2, 9000, 200, 9000, 9000));
+        due("least WARMTH", -3000, x.food(0, 1));
+        due("least CAP", 1, x.food(0, 2));
+        due("most WARMTH", 9000, x.food(1, 1));
+        due("most CAP", 200, x.food(1, 2));
         due("PUT", 9000 * 200 - 3000, x.heat(2));
         for (int f = 2; f < 8; f++) due("put " + f, f, x.put(1, 0, 1, 0, 0));
         due("full", FULL, x.put(1, 0, 1, 0, 0));
@@ -474,6 +485,23 @@ public final class BoxTest {
         due("mix: air 1", (10000 + 12) / 20, x.warmth(1));
         x.run(100);
         due("mix: heat", 102 * 495 - 10000, x.heat(0));
+        x = new ColdBox();
+        box(x, "wall 0; seal 0; mix 99; cold 0; food 99; on 200;");
+        x.put(1, 9000, 200, 0, 9000);
+        x.run(1);
+        due("air 1 by the FOOD", (10000 + 8415) / 20, x.warmth(1));
+        x.run(1);
+        due("mix: to air 0", (10000 + 920 * 99 / 100 - 500 * 99 / 100) / 20, x.warmth(0));
+        due("mix: to air 2", (10000 + 920 * 99 / 100 - 500 * 99 / 100) / 20, x.warmth(2));
+        x = new ColdBox();
+        box(x, "wall 0; seal 0; mix 0; cold 99; on 200;");
+        x.run(1);
+        due("much cold: air", (10000 - 1485) / 20, x.warmth(0));
+        due("much cold: coil", (-40000 + 1485) / 40, x.warmth(3));
+        x = new ColdBox();
+        box(x, "wall 0; seal 0; mix 50; cold 0; lamp 99; on 200;");
+        x.trouble(32);
+        x.run(102);
         due("mix: downwards", 1, x.warmth(1) > x.warmth(2) && x.warmth(0) > x.warmth(1) ? 1 : 0);
     }
 
@@ -510,6 +538,11 @@ public final class BoxTest {
         for (int s = 0; s < 3; s++) due += (2000 - x.warmth(s)) / 10;
         x.run(1);
         due("hour 2 has not", due, x.heat(1) - before);
+        x = new ColdBox();
+        box(x, "wall 99; seal 1; mix 0; cold 0; stove 0 24 1; room 1;");
+        x.trouble(64);
+        x.run(1);
+        due("PLACED, all of it", 3 * (10 + 10 + 800 - 500), x.heat(1));
         x = new ColdBox();
         box(x, quiet + "stove 0 24 200; room 400;");
         x.trouble(64);
@@ -550,6 +583,22 @@ public final class BoxTest {
         due("READING", 500, x.count(8));
         due("by the bulb's SHELF", 1, x.run(1));
         due("READING", 524, x.count(8));
+        x = still("on 200; bulb 0; lamp 99;");
+        x.trouble(32);
+        x.run(29);
+        x.cover(true);
+        due("READING ahead", 1193, x.count(8));
+        x.run(1);
+        due("READING near", 1193 + (1217 - 1193) / 8, x.count(8));
+        x = still("on 200; bulb 0; lamp 99;");
+        x.trouble(32);
+        x.cover(true);
+        int reading = 500;
+        for (int t = 0; t < 40; t++) {
+            reading += (x.warmth(0) - reading) / 8;
+            x.run(1);
+            due("COVERED, TICK " + t, reading, x.count(8));
+        }
         x = still("on 51; off 50; bulb 0; lamp 80;");
         x.trouble(32);
         x.cover(true);
@@ -581,6 +630,17 @@ public final class BoxTest {
         due("by THE ROOM", 900 - 375, movedAtOnce("", 0));
         due("0 at least", 0, movedAtOnce("power 1;", 0));
         due("PLACED", 900 - 475, movedAtOnce("", 64));
+        due("no other TROUBLE", 900 - 125, movedAtOnce("room 0;", 1 + 2 + 16 + 32));
+        due("other ones, no lamp", 0, usedOfOne(1 + 2 + 4 + 8 + 64));
+        due("LIT, lamp", 5, usedOfOne(32));
+        due("STUCK, on", 10, usedOfOne(16));
+    }
+
+    private static int usedOfOne(int troubles) {
+        ColdBox x = still("lamp 5; use 10;");
+        x.trouble(troubles);
+        x.run(1);
+        return x.count(1);
     }
 
     private static void lamp() {
@@ -653,6 +713,20 @@ public final class BoxTest {
         x.run(2);
         due("warm, WET passes", 6, x.count(7));
         due("no FUR", 0, x.count(5));
+        x = still("power 30; room 0;");
+        x.thaw();
+        x.trouble(16);
+        int stood = 0;
+        for (int t = 0; t < 3000 && x.warmth(3) >= 0; t++) {
+            x.trouble(16);
+            x.trouble(18);
+            x.run(1);
+            if (x.warmth(3) == 0) {
+                stood++;
+                due("at 0 it drains", 599, x.count(5));
+            }
+        }
+        due("it stood at 0", 1, stood > 0 ? 1 : 0);
         // THE COIL's WARMTH of -1000 comes to 0 and above within the TICK.
         x = new ColdBox();
         box(x, "wall 0; mix 0; seal 3; cold 99;");
@@ -678,6 +752,12 @@ public final class BoxTest {
         x.trouble(2);
         due("fur drains", 600, x.thaw());
         due("DRAINED", 600, x.count(6));
+        x = still("lamp 1; on 200;");
+        x.thaw();
+        x.trouble(32);
+        x.run(1);
+        due("a little above 1000", 0, x.thaw());
+        due("its HEAT stays", 3 * 20000 + 40000 + 5, x.heat(0));
         x = still("lamp 99;");
         x.trouble(32);
         x.put(1, -50, 3, -100, 100);
@@ -745,6 +825,19 @@ public final class BoxTest {
         due("seed then", seed, x.seed(0));
         x.run(288);
         due("THE DAY again", used + 60, x.count(1));
+        seed = 0;
+        for (int call = 0; call < 30; call++) {
+            used = 0;
+            for (int d = 0; d < 1 + call % 3; d++) {
+                java.util.Set<Long> ticks = new java.util.HashSet<>();
+                for (int i = 0; i < call % 21; i++) {
+                    seed = seedAfter(seed);
+                    ticks.add(seed / 65536 % 288);
+                }
+                used += 3 * ticks.size();
+            }
+            due("drawn, USED in these DAYS", used, x.drawn(1 + call % 3, call % 21));
+        }
     }
 
     private static void drawnFromMidDay() {

@@ -12,6 +12,8 @@ public final class PlanTest {
     public static void main(String[] args) {
         signs();
         signsFromAnyState();
+        allSignsAtOnce();
+        firstAsked();
         seenAndForgotten();
         priorsAndBothers();
         oddsUnseen();
@@ -120,6 +122,49 @@ public final class PlanTest {
         x.feed(1, 'x');
         x.box();
         for (int what = 0; what < 7; what++) due("sign, a FAULT", other[what], x.sign(5, 3, what));
+    }
+
+    /** SIGNS that are asked after all SETS were: each SET has its own. */
+    private static void allSignsAtOnce() {
+        ColdBox x = made(LEAKY, OPENED);
+        for (int n = 1; n <= 6; n++) {
+            for (int set = 0; set < 128; set++) x.sign(set, n, 0);
+        }
+        ColdBox y = made(LEAKY, OPENED);
+        for (int set = 0; set < 128; set += 3) {
+            for (int n = 1; n <= 6; n++) {
+                int[] due = signsByRuns(y, set, n);
+                for (int what = 0; what < 7; what++) due("all signs " + set + ", " + n, due[what], x.sign(set, n, what));
+            }
+        }
+        box(x, "power 300;");
+        int[] other = signsByRuns(made("power 300;", OPENED), 0, 1);
+        for (int what = 0; what < 7; what++) due("one DAY of another BOX", other[what], x.sign(0, 1, what));
+    }
+
+    /** Each call answers the same, whatever was asked before. */
+    private static void firstAsked() {
+        ColdBox x = made(LEAKY, OPENED);
+        for (int set = 0; set < 128; set++) x.sign(set, 6, 0);
+        due("odds first", x.odds(6, 3), made(LEAKY, OPENED).odds(6, 3));
+        due("each first", x.each(6, 3), made(LEAKY, OPENED).each(6, 3));
+        due("tells first", x.tells(4, 3), made(LEAKY, OPENED).tells(4, 3));
+        x.bother(0, 500);
+        ColdBox y = made(LEAKY, OPENED);
+        y.bother(0, 500);
+        due("next first", x.next(3), y.next(3));
+        due("year first", x.year(33), made(LEAKY, OPENED).year(33));
+        due("saves first", x.saves(127, 32), made(LEAKY, OPENED).saves(127, 32));
+        due("best first", x.best(127, 100, 0), made(LEAKY, OPENED).best(127, 100, 0));
+        due("best first, saves", x.best(127, 100, 1), made(LEAKY, OPENED).best(127, 100, 1));
+        due("pays first", x.pays(127, 90000, 50), made(LEAKY, OPENED).pays(127, 90000, 50));
+        y = made(LEAKY, OPENED);
+        y.seen(5, 1500, 40);
+        x.seen(5, 1500, 40);
+        due("odds first, by SIGNS", x.odds(1, 2), y.odds(1, 2));
+        y = made(LEAKY, OPENED);
+        y.seen(5, 1500, 40);
+        due("each first, by SIGNS", x.each(0, 2), y.each(0, 2));
     }
 
     private static void seenAndForgotten() {
@@ -389,12 +434,25 @@ public final class PlanTest {
                 due("makes on " + set, on, x.makes(set, 1));
             }
         }
-        ColdBox x = made("seal 0; on 200;", "");
+        ColdBox x = made("power 999; seal 0; cold 20; on 5; off 0;", "open 0 1;");
+        due("20 a DAY", 30, x.makes(0, 0));
+        due("FUR then", 600, lastFur(x, 0, 30));
+        x = made("power 999; wall 1; seal 0; mix 0; cold 20; on 75; off 0; lamp 30;", "open 287 1;");
+        due("FUR a DAY later", 600, lastFur(x, 32, 31));
+        due("too late", NONE, x.makes(32, 0));
+        x = made("seal 0; on 200;", "");
         due("never fur", NONE, x.makes(0, 0));
         due("never on", NONE, x.makes(0, 1));
         due("FURRED, and all drains", NONE, x.makes(2, 0));
         due("FURRED at once", 1, new ColdBox().makes(2, 0));
         due("STUCK at once", 1, x.makes(16, 1));
+    }
+
+    private static int lastFur(ColdBox x, int set, int n) {
+        x.trouble(set);
+        x.fresh();
+        for (int d = 0; d < n; d++) x.run(288);
+        return x.count(5);
     }
 
     private static void makingRefused() {
@@ -449,7 +507,13 @@ public final class PlanTest {
     }
 
     private static void bestMending() {
-        ColdBox x = made(LEAKY, OPENED);
+        bestMendingOf(LEAKY);
+        bestMendingOf("power 999; wall 1; seal 0; cold 99; mix 99; on 80; off 60; lamp 20;");
+        bestMendingOf("power 999; wall 3; seal 1; cold 80; mix 90; on 90; off 60; lamp 2; use 50;");
+    }
+
+    private static void bestMendingOf(String box) {
+        ColdBox x = made(box, OPENED);
         due("best 128", UNKNOWN, x.best(128, -1, 3));
         due("best -1", UNKNOWN, x.best(-1, 0, 0));
         due("c -1", OUTSIDE, x.best(0, -1, 0));
@@ -458,8 +522,8 @@ public final class PlanTest {
         due("what -1", OUTSIDE, x.best(0, 0, -1));
         int[] costs = {70, 20, 999, 10, 0, 70, 20};
         for (int k = 0; k < 7; k++) x.mending(k, costs[k]);
-        int[] coins = {0, 10, 29, 30, 90, 100, 9999};
-        for (int set = 0; set < 128; set += 3) {
+        int[] coins = {0, 10, 20, 29, 30, 70, 90, 100, 9999};
+        for (int set = 0; set < 128; set++) {
             for (int c : coins) {
                 int found = 0;
                 for (int part = 127; part >= 0; part--) {
@@ -490,6 +554,7 @@ public final class PlanTest {
         due("c 100000", OUTSIDE, x.pays(0, 100000, 0));
         due("u -1", OUTSIDE, x.pays(0, 0, -1));
         due("u 10000", OUTSIDE, x.pays(0, 0, 10000));
+        due("bounds are within", 1, x.pays(0, 99999, 9999) >= NONE && x.pays(0, 0, 0) > 0 ? 1 : 0);
         due("for nothing", 1, x.pays(0, 0, x.sign(0, 2, 6)));
         due("uses as much", NONE, x.pays(0, 1, x.sign(0, 2, 6)));
         due("uses more", NONE, x.pays(0, 0, x.sign(0, 2, 6) + 1000));
@@ -540,9 +605,9 @@ public final class PlanTest {
             ColdBox x = made(text, opened);
             ColdBox y = made(text, opened);
             x.price(999);
-            for (int set = 0; set < 128; set += set < 4 ? 1 : 7) {
-                for (int n = 1; n <= 20; n += 6) {
-                    int b = set % 4 * 10;
+            for (int set = 0; set < 128; set += set < 4 ? 1 : 23) {
+                for (int n = 1; n <= 20; n += set < 4 ? 1 : 6) {
+                    int b = text.length() < 55 ? set % 4 * 10 : set * n % 7 * 30;
                     int want = iceByRuns(y, set, n, b, 999, true);
                     found[want]++;
                     due("ice " + set + ", " + n + ", " + b, want, x.ice(set, n, b));
@@ -562,6 +627,7 @@ public final class PlanTest {
         due("n 21", OUTSIDE, x.ice(0, 21, 0));
         due("b -1", OUTSIDE, x.ice(0, 1, -1));
         due("b 1000", OUTSIDE, x.ice(0, 1, 1000));
+        due("b 999", 0, x.ice(0, 1, 999));
         due("one DAY: never", 0, x.ice(127, 1, 0));
         due("STUCK: all alike", 0, x.ice(16, 20, 0));
         x.price(0);
@@ -671,7 +737,11 @@ public final class PlanTest {
             due("bulb's foods", most, x.bulb(1));
             due("bulb stays", 1, x.told(8));
         }
-        ColdBox x = new ColdBox();
+        ColdBox x = larder("mix 10; on 50; off 40;");
+        int best = x.bulb(1);
+        due("lying is better", 1, x.lying(NONE) > best ? 1 : 0);
+        due("bulb behind lying", best, x.bulb(1));
+        x = new ColdBox();
         due("bulb 2", OUTSIDE, x.bulb(2));
         due("bulb -1", OUTSIDE, x.bulb(-1));
         due("no foods: the least", 0, x.bulb(0));
@@ -686,25 +756,25 @@ public final class PlanTest {
         due("without 8", UNKNOWN, x.without(8));
         due("without -1", UNKNOWN, x.without(-1));
         x.trouble(32 + 16);
-        for (int f = 0; f < 4; f++) {
-            if (f == 1) continue;
+        java.util.Set<Integer> answers = new java.util.TreeSet<>();
+        for (int cap = 1; cap <= 200; cap += 19) {
             for (int low = -3000; low < 900; low += 700) {
                 ColdBox y = larder(LEAKY);
                 y.trouble(48);
-                y.take(f);
-                x.goBack(0);
-                int g = y.put(1, 450, 150, low, 900);
-                int got = y.without(g);
+                int f = y.put(1, 450, cap, low, Math.max(low, 500 + cap * 3));
+                int got = y.without(f);
                 y.current(false);
                 int ticks = 0;
                 while (ticks <= 864) {
                     y.run(1);
-                    if (y.food(g, 5) == 0) break;
+                    if (y.food(f, 5) == 0) break;
                     ticks++;
                 }
                 due("without", ticks > 864 ? NONE : ticks, got);
+                answers.add(got);
             }
         }
+        due("without: many answers", 1, answers.size() > 8 ? 1 : 0);
         x = new ColdBox();
         x.put(0, 500, 1, -3000, 9000);
         due("longer", NONE, x.without(0));
@@ -719,8 +789,9 @@ public final class PlanTest {
         x.put(0, 500, 200, 500, 500);
         due("nothing moves", NONE, x.without(0));
         // 864 and 865 TICKS: the span's end is set where the FOOD will be, by a copy that goes on.
-        ColdBox y = made("wall 1; seal 0; mix 0; cold 0; food 1;", "");
-        y.put(1, 500, 200, -3000, 9000);
+        String slow = "wall 1; seal 0; mix 0; cold 0; food 50; room 400; stove 0 24 200;";
+        ColdBox y = made(slow, "");
+        y.put(1, 500, 1, -3000, 9000);
         y.current(false);
         int[] warm = new int[870];
         for (int t = 0; t < 870; t++) {
@@ -728,11 +799,10 @@ public final class PlanTest {
             warm[t] = y.food(0, 1);
         }
         for (int last = 862; last < 868; last++) {
-            int want = 0;
-            while (want <= 864 && warm[want] <= warm[last]) want++;
-            ColdBox z = made("wall 1; seal 0; mix 0; cold 0; food 1;", "");
-            z.put(1, 500, 200, -3000, warm[last]);
-            due("near the end", want > 864 ? NONE : want, z.without(0));
+            due("it warms on", 1, warm[last + 1] > warm[last] ? 1 : 0);
+            ColdBox z = made(slow, "");
+            z.put(1, 500, 1, -3000, warm[last]);
+            due("within for " + (last + 1), last + 1 > 864 ? NONE : last + 1, z.without(0));
         }
     }
 
@@ -756,6 +826,7 @@ public final class PlanTest {
     }
 
     private static void store() {
+        storeLeftMost();
         String[] rest = {"power 646; wall 3; seal 0; cold 97; mix 57;", "power 892; wall 4; seal 0; cold 55; mix 91; lamp 30;"};
         int stored = 0, none = 0;
         for (String text : rest) {
@@ -771,7 +842,7 @@ public final class PlanTest {
                     int d = NONE, paid = NONE;
                     y.keep(0);
                     for (int less = 0; less <= 40; less += 5) {
-                        int cost = paidByRuns(y, text, a, b, less, 2);
+                        int cost = paidByRuns(y, text, a, b, less, 60, 45);
                         if (cost != NONE && (paid == NONE || cost < paid)) {
                             d = less;
                             paid = cost;
@@ -787,19 +858,34 @@ public final class PlanTest {
         due("store: some by more than 0, some by none", 1, stored > 0 && none > 0 ? 1 : 0);
     }
 
-    private static int paidByRuns(ColdBox y, String text, int a, int b, int less, int n) {
+    /** The d of all that cools most in cheap hours. */
+    private static void storeLeftMost() {
+        String text = "power 692; wall 3; seal 1; cold 82; mix 90; ";
+        ColdBox x = made(text + "on 66; off 37;", "");
+        ColdBox y = made(text + "on 66; off 37;", "");
+        x.price(40);
+        x.cheap(11, 16, 5);
+        x.put(2, 450, 80, 100, 900);
+        y.put(2, 450, 80, 100, 900);
+        y.keep(0);
+        due("40 tenths", 40, x.store(2, 0));
+        due("paid by 40 tenths", paidByRuns(y, text, 11, 16, 40, 66, 37), x.store(2, 1));
+        due("35 are dearer", 1, paidByRuns(y, text, 11, 16, 35, 66, 37) > x.store(2, 1) ? 1 : 0);
+    }
+
+    private static int paidByRuns(ColdBox y, String text, int a, int b, int less, int on, int off) {
         y.goBack(0);
         long paid = 0;
         boolean was = false;
         y.keep(1);
-        box(y, text + "on 60; off 45;");
+        box(y, text + "on " + on + "; off " + off + ";");
         y.goBack(1);
-        for (int t = 0; t < n * 288; t++) {
+        for (int t = 0; t < 2 * 288; t++) {
             int hour = y.count(0) % 288 / 12;
             boolean cheap = a != NONE && a <= hour && hour < b;
             if (cheap != was) {
                 y.keep(1);
-                box(y, text + "on " + (60 - (cheap ? less : 0)) + "; off " + (45 - (cheap ? less : 0)) + ";");
+                box(y, text + "on " + (on - (cheap ? less : 0)) + "; off " + Math.max(0, off - (cheap ? less : 0)) + ";");
                 y.goBack(1);
                 was = cheap;
             }
