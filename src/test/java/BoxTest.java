@@ -494,6 +494,13 @@ public final class BoxTest {
         due("mix: to air 0", (10000 + 920 * 99 / 100 - 500 * 99 / 100) / 20, x.warmth(0));
         due("mix: to air 2", (10000 + 920 * 99 / 100 - 500 * 99 / 100) / 20, x.warmth(2));
         x = new ColdBox();
+        box(x, "wall 0; seal 0; mix 50; cold 0; food 50; on 200;");
+        x.put(1, 8500, 200, 0, 9000);
+        x.run(1);
+        due("air 1 by 4000", 700, x.warmth(1));
+        x.run(1);
+        due("mix 100 to air 0, whole", 505, x.warmth(0));
+        x = new ColdBox();
         box(x, "wall 0; seal 0; mix 0; cold 99; on 200;");
         x.run(1);
         due("much cold: air", (10000 - 1485) / 20, x.warmth(0));

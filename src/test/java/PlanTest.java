@@ -31,6 +31,7 @@ public final class PlanTest {
         bestMending();
         paying();
         ice();
+        iceWhereItTurns();
         iceByHand();
         lyingRefused();
         lying();
@@ -158,13 +159,14 @@ public final class PlanTest {
         due("best first", x.best(127, 100, 0), made(LEAKY, OPENED).best(127, 100, 0));
         due("best first, saves", x.best(127, 100, 1), made(LEAKY, OPENED).best(127, 100, 1));
         due("pays first", x.pays(127, 90000, 50), made(LEAKY, OPENED).pays(127, 90000, 50));
+        int v = x.sign(2, 2, 5);
         y = made(LEAKY, OPENED);
-        y.seen(5, 1500, 40);
-        x.seen(5, 1500, 40);
-        due("odds first, by SIGNS", x.odds(1, 2), y.odds(1, 2));
+        y.seen(5, v, 400);
+        x.seen(5, v, 400);
+        due("odds first, by SIGNS", x.odds(2, 2), y.odds(2, 2));
         y = made(LEAKY, OPENED);
-        y.seen(5, 1500, 40);
-        due("each first, by SIGNS", x.each(0, 2), y.each(0, 2));
+        y.seen(5, v, 400);
+        due("each first, by SIGNS", x.each(1, 2), y.each(1, 2));
     }
 
     private static void seenAndForgotten() {
@@ -617,6 +619,51 @@ public final class PlanTest {
         int often = 0;
         for (int p = 1; p <= 20; p++) often += found[p] > 0 ? 1 : 0;
         due("ice: some p are best", 1, found[0] > 0 && often > 1 ? 1 : 0);
+    }
+
+    /** At each bother at which another p becomes best, and one below it. */
+    private static void iceWhereItTurns() {
+        String text = "power 750; wall 2; seal 14; cold 46; on 122; off 118; mix 37; bulb 0;";
+        int turns = 0;
+        for (int price = 999; price > 0; price -= 333) {
+            for (int n = 2; n <= 20; n += 3) {
+                ColdBox x = made(text, "");
+                x.price(price);
+                long[] costs = new long[21];
+                for (int p = 0; p <= 20; p++) costs[p] = (long) usedThawing(x, n, p) * price / 1000;
+                int former = -1;
+                for (int b = 0; b <= 999; b++) {
+                    int best = 0;
+                    for (int p = 1; p <= 20; p++) {
+                        if (costs[p] + b * timesOf(n, p) < costs[best] + b * timesOf(n, best)) best = p;
+                    }
+                    if (best != former) {
+                        if (b > 0) due("ice ahead of " + b + ", n " + n, former, x.ice(0, n, b - 1));
+                        due("ice at " + b + ", n " + n, best, x.ice(0, n, b));
+                        turns++;
+                    }
+                    former = best;
+                }
+            }
+        }
+        due("ice turns often", 1, turns > 40 ? 1 : 0);
+    }
+
+    private static int usedThawing(ColdBox x, int n, int p) {
+        x.fresh();
+        for (int d = 0; d < n; d++) {
+            if (p > 0 && d > 0 && d % p == 0) x.thaw();
+            x.run(288);
+        }
+        return x.count(1);
+    }
+
+    private static long timesOf(int n, int p) {
+        long times = 0;
+        for (int d = 1; d < n; d++) {
+            if (p > 0 && d % p == 0) times++;
+        }
+        return times;
     }
 
     private static void iceByHand() {
