@@ -345,6 +345,11 @@ public final class PlanTest {
     }
 
     private static void oddsByHand() {
+        ColdBox y = made("power 951; wall 4; seal 2; cold 57; on 63; off 24; mix 49;", "");
+        Model m = new Model(y, 1);
+        due("TICKS on are not alike", 1, y.sign(0, 1, 0) != y.sign(64, 1, 0) ? 1 : 0);
+        m.see(0, y.sign(64, 1, 0), 20);
+        m.check("TICKS on are seen");
         ColdBox x = new ColdBox();
         for (int k = 0; k < 7; k++) x.prior(k, 0);
         due("sure of none", 1000000, x.odds(0, 1));
@@ -489,6 +494,9 @@ public final class PlanTest {
         due("STUCK, LIT", (long) used * 365 * 999 / 1000, x.year(48));
         x.price(1);
         for (int set = 0; set < 128; set += 11) due("year", x.sign(set, 2, 6) * 365 / 1000, x.year(set));
+        ColdBox y = made("power 951; wall 4; seal 2; cold 57; on 63; off 24; mix 49;", "");
+        due("DAYS are not alike", 1, y.sign(0, 1, 6) != y.sign(0, 2, 6) && y.sign(0, 2, 6) != y.sign(0, 3, 6) ? 1 : 0);
+        due("the second DAY", y.sign(0, 2, 6) * 365L * 30 / 1000, y.year(0));
         x.current(false);
         due("FRESH leaves the current as it is", 0, x.year(48));
         due("saves without current", 0, x.saves(48, 16));
@@ -509,6 +517,16 @@ public final class PlanTest {
     }
 
     private static void bestMending() {
+        ColdBox x = made("power 870; wall 4; seal 0; cold 78; on 184; off 163; mix 48;", "");
+        due("either mends all", x.saves(65, 65), x.saves(65, 1));
+        due("either mends all", x.saves(65, 65), x.saves(65, 64));
+        due("of like ones the least SET", 1, x.best(65, 200, 0));
+        x.mending(0, 51);
+        due("of like ones the cheapest", 64, x.best(65, 200, 0));
+        due("its cost", 50, x.best(65, 200, 2));
+        x.mending(6, 0);
+        x.mending(0, 0);
+        due("both for nothing: the least SET", 1, x.best(65, 0, 0));
         bestMendingOf(LEAKY);
         bestMendingOf("power 999; wall 1; seal 0; cold 99; mix 99; on 80; off 60; lamp 20;");
         bestMendingOf("power 999; wall 3; seal 1; cold 80; mix 90; on 90; off 60; lamp 2; use 50;");
@@ -721,6 +739,14 @@ public final class PlanTest {
         x.take(0);
         due("six", 1, x.lying(NONE) >= 0 ? 1 : 0);
         due("taken", UNKNOWN, x.lying(0));
+        x = made("mix 5;", "");
+        for (int f = 0; f < 8; f++) x.put(0, 500, 10, -3000, 9000);
+        for (int f = 0; f < 7; f++) x.take(f);
+        due("FOOD 7 alone", 0, x.lying(7));
+        x.take(7);
+        for (int f = 0; f < 8; f++) x.put(1, 1500, 10, 1100, 9000);
+        for (int f = 0; f < 7; f++) x.take(f);
+        due("FOOD 7 lies best on the warmest", 2, x.lying(7));
     }
 
     private static void lying() {
