@@ -48,7 +48,12 @@ public final class BoxTest {
     }
 
     private static void tell(ColdBox x, String text) {
-        for (int i = 0; i < text.length(); i++) x.feed(1, text.charAt(i));
+        for (int i = 0; i < text.length(); i += 8) {
+            int n = Math.min(8, text.length() - i);
+            long bytes = 0;
+            for (int k = 0; k < n; k++) bytes = bytes << 8 | text.charAt(i + k);
+            x.feed(n, bytes);
+        }
     }
 
     private static int box(ColdBox x, String text) {
@@ -720,20 +725,6 @@ public final class BoxTest {
         x.run(2);
         due("warm, WET passes", 6, x.count(7));
         due("no FUR", 0, x.count(5));
-        x = still("power 30; room 0;");
-        x.thaw();
-        x.trouble(16);
-        int stood = 0;
-        for (int t = 0; t < 3000 && x.warmth(3) >= 0; t++) {
-            x.trouble(16);
-            x.trouble(18);
-            x.run(1);
-            if (x.warmth(3) == 0) {
-                stood++;
-                due("at 0 it drains", 599, x.count(5));
-            }
-        }
-        due("it stood at 0", 1, stood > 0 ? 1 : 0);
         // THE COIL's WARMTH of -1000 comes to 0 and above within the TICK.
         x = new ColdBox();
         box(x, "wall 0; mix 0; seal 3; cold 99;");

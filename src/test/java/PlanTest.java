@@ -57,16 +57,24 @@ public final class PlanTest {
 
     private static ColdBox made(String box, String day) {
         ColdBox x = new ColdBox();
-        for (int i = 0; i < box.length(); i++) x.feed(1, box.charAt(i));
-        if (x.box() < 0) throw new IllegalStateException(box);
-        for (int i = 0; i < day.length(); i++) x.feed(1, day.charAt(i));
+        box(x, box);
+        tell(x, day);
         if (x.day() < 0) throw new IllegalStateException(day);
         return x;
     }
 
     private static void box(ColdBox x, String text) {
-        for (int i = 0; i < text.length(); i++) x.feed(1, text.charAt(i));
+        tell(x, text);
         if (x.box() < 0) throw new IllegalStateException(text);
+    }
+
+    private static void tell(ColdBox x, String text) {
+        for (int i = 0; i < text.length(); i += 8) {
+            int n = Math.min(8, text.length() - i);
+            long bytes = 0;
+            for (int k = 0; k < n; k++) bytes = bytes << 8 | text.charAt(i + k);
+            x.feed(n, bytes);
+        }
     }
 
     /** The SIGNS of the last of n DAYS by plain runs. */
@@ -89,8 +97,9 @@ public final class PlanTest {
         due("sign -1", UNKNOWN, x.sign(0, 1, -1));
         due("n 0", OUTSIDE, x.sign(0, 0, 0));
         due("n 7", OUTSIDE, x.sign(0, 7, 0));
-        ColdBox y = made(LEAKY, OPENED);
         for (int set = 0; set < 128; set += 7) {
+            x = made(LEAKY, OPENED);
+            ColdBox y = made(LEAKY, OPENED);
             for (int n = 6; n >= 1; n -= 2) {
                 int[] due = signsByRuns(y, set, n);
                 for (int what = 0; what < 7; what++) due("sign " + set + ", " + n + ", " + what, due[what], x.sign(set, n, what));
@@ -127,14 +136,12 @@ public final class PlanTest {
 
     /** SIGNS that are asked after all SETS were: each SET has its own. */
     private static void allSignsAtOnce() {
-        ColdBox x = made(LEAKY, OPENED);
+        ColdBox x = new ColdBox();
         for (int n = 1; n <= 6; n++) {
-            for (int set = 0; set < 128; set++) x.sign(set, n, 0);
-        }
-        ColdBox y = made(LEAKY, OPENED);
-        for (int set = 0; set < 128; set += 3) {
-            for (int n = 1; n <= 6; n++) {
-                int[] due = signsByRuns(y, set, n);
+            x = made(LEAKY, OPENED);
+            for (int set = 0; set < 128; set++) x.sign(set, 7 - n, 0);
+            for (int set = 0; set < 128; set += 3) {
+                int[] due = signsByRuns(made(LEAKY, OPENED), set, n);
                 for (int what = 0; what < 7; what++) due("all signs " + set + ", " + n, due[what], x.sign(set, n, what));
             }
         }
@@ -206,6 +213,7 @@ public final class PlanTest {
     /** What was SEEN, the PRIORS and BOTHERS of a test, and what is due by them. */
     private static final class Model {
         final ColdBox x;
+        final int[][] shown = new int[128][7];
         final int n;
         final boolean[] seen = new boolean[7];
         final int[] v = new int[7];
@@ -213,9 +221,10 @@ public final class PlanTest {
         final int[] priors = {100, 100, 100, 100, 100, 100, 100};
         final int[] bothers = new int[7];
 
-        Model(ColdBox x, int n) {
+        Model(ColdBox x, String box, String day, int n) {
             this.x = x;
             this.n = n;
+            for (int set = 0; set < 128; set++) shown[set] = signsByRuns(made(box, day), set, n);
         }
 
         void see(int what, int value, int exact) {
@@ -244,7 +253,7 @@ public final class PlanTest {
             }
             for (int what = 0; what < 7; what++) {
                 if (!seen[what]) continue;
-                int far = Math.abs(v[what] - x.sign(set, n, what));
+                int far = Math.abs(v[what] - shown[set][what]);
                 for (int i = 0; i < 20 && far >= e[what]; i++) {
                     w /= 2;
                     far -= e[what];
@@ -275,7 +284,7 @@ public final class PlanTest {
         long tells(int what) {
             java.util.Map<Integer, Long> classes = new java.util.TreeMap<>();
             for (int set = 0; set < 128; set++) {
-                if (Integer.bitCount(set) <= 2) classes.merge(x.sign(set, n, what) / e[what], weight(set), Long::sum);
+                if (Integer.bitCount(set) <= 2) classes.merge(shown[set][what] / e[what], weight(set), Long::sum);
             }
             long all = all();
             if (all == 0) return 0;
@@ -311,7 +320,7 @@ public final class PlanTest {
         due("odds -1", UNKNOWN, x.odds(-1, 1));
         due("odds n 0", OUTSIDE, x.odds(3, 0));
         due("odds n 7", OUTSIDE, x.odds(3, 7));
-        new Model(x, 2).check("unseen");
+        new Model(x, LEAKY, OPENED, 2).check("unseen");
         // Nine tenths for each of seven, a tenth in place of one for each that is there: 81 to 9 to 1.
         due("odds of none", 1000 * 81 / (81 + 7 * 9 + 21), x.odds(0, 1) / 1000);
         due("odds of one", 1000 * 9 / (81 + 7 * 9 + 21), x.odds(64, 1) / 1000);
@@ -320,7 +329,7 @@ public final class PlanTest {
 
     private static void oddsSeen() {
         ColdBox x = made(LEAKY, OPENED);
-        Model m = new Model(x, 3);
+        Model m = new Model(x, LEAKY, OPENED, 3);
         m.see(5, x.sign(20, 3, 5) + 3, 40);
         m.check("one seen");
         m.see(2, x.sign(20, 3, 2) - 30, 15);
@@ -345,8 +354,9 @@ public final class PlanTest {
     }
 
     private static void oddsByHand() {
-        ColdBox y = made("power 951; wall 4; seal 2; cold 57; on 63; off 24; mix 49;", "");
-        Model m = new Model(y, 1);
+        String text = "power 951; wall 4; seal 2; cold 57; on 63; off 24; mix 49;";
+        ColdBox y = made(text, "");
+        Model m = new Model(y, text, "", 1);
         due("TICKS on are not alike", 1, y.sign(0, 1, 0) != y.sign(64, 1, 0) ? 1 : 0);
         m.see(0, y.sign(64, 1, 0), 20);
         m.check("TICKS on are seen");
@@ -425,8 +435,8 @@ public final class PlanTest {
     private static void making() {
         for (int current = 1; current >= 0; current--) {
             ColdBox x = made("seal 1; room 160;", OPENED);
-            ColdBox y = made("seal 1; room 160;", OPENED);
             for (int set = 0; set < 128; set += 5) {
+                ColdBox y = made("seal 1; room 160;", OPENED);
                 y.trouble(set);
                 y.fresh();
                 y.current(current == 1);
@@ -510,6 +520,7 @@ public final class PlanTest {
         due("no part", NOT, x.saves(5, 3));
         due("nothing mended", 0, x.saves(5, 0));
         for (int set = 1; set < 128; set += 6) {
+            x = made(LEAKY, OPENED);
             for (int part = set; part > 0; part = (part - 1) & set) {
                 due("saves " + set + ", " + part, x.year(set) - x.year(set - part), x.saves(set, part));
             }
@@ -541,20 +552,23 @@ public final class PlanTest {
         due("what 3", OUTSIDE, x.best(0, 0, 3));
         due("what -1", OUTSIDE, x.best(0, 0, -1));
         int[] costs = {70, 20, 999, 10, 0, 70, 20};
-        for (int k = 0; k < 7; k++) x.mending(k, costs[k]);
         int[] coins = {0, 10, 20, 29, 30, 70, 90, 100, 9999};
+        int[] years = new int[128];
+        for (int set = 0; set < 128; set++) years[set] = x.year(set);
         for (int set = 0; set < 128; set++) {
+            x = made(box, OPENED);
+            for (int k = 0; k < 7; k++) x.mending(k, costs[k]);
             for (int c : coins) {
                 int found = 0;
                 for (int part = 127; part >= 0; part--) {
                     if ((part & set) != part || cost(part, costs) > c) continue;
-                    int better = x.saves(set, part) - x.saves(set, found);
+                    int better = years[set - found] - years[set - part];
                     int dearer = cost(part, costs) - cost(found, costs);
                     boolean like = better == 0 && dearer == 0;
                     if (better > 0 || better == 0 && dearer < 0 || like && part < found) found = part;
                 }
                 due("best of " + set + " for " + c, found, x.best(set, c, 0));
-                due("best saves", x.saves(set, found), x.best(set, c, 1));
+                due("best saves", years[set] - years[set - found], x.best(set, c, 1));
                 due("best costs", cost(found, costs), x.best(set, c, 2));
             }
         }
@@ -581,6 +595,8 @@ public final class PlanTest {
         x.price(10);
         int year = x.year(48);
         for (int u = 0; u <= 9999; u += 303) {
+            x = made(LEAKY, OPENED);
+            x.price(10);
             int less = year - u * 365 * 10 / 1000;
             if (less <= 0) continue;
             for (int y = 1; y <= 30; y++) {
@@ -591,13 +607,13 @@ public final class PlanTest {
         }
     }
 
-    private static int iceByRuns(ColdBox x, int set, int n, int b, int price, boolean current) {
+    private static int iceByRuns(String box, String day, int set, int n, int b, int price) {
         int found = 0;
         long least = Long.MAX_VALUE;
         for (int p = 0; p <= 20; p++) {
+            ColdBox x = made(box, day);
             x.trouble(set);
             x.fresh();
-            x.current(current);
             long bothers = 0;
             for (int d = 0; d < n; d++) {
                 if (p > 0 && d > 0 && d % p == 0) {
@@ -623,12 +639,11 @@ public final class PlanTest {
         for (String text : boxes) {
             String opened = text.length() < 55 ? OPENED : "open 5 1;";
             ColdBox x = made(text, opened);
-            ColdBox y = made(text, opened);
             x.price(999);
             for (int set = 0; set < 128; set += set < 4 ? 1 : 23) {
                 for (int n = 1; n <= 20; n += set < 4 ? 1 : 6) {
                     int b = text.length() < 55 ? set % 4 * 10 : set * n % 7 * 30;
-                    int want = iceByRuns(y, set, n, b, 999, true);
+                    int want = iceByRuns(text, opened, set, n, b, 999);
                     found[want]++;
                     due("ice " + set + ", " + n + ", " + b, want, x.ice(set, n, b));
                 }
@@ -648,7 +663,7 @@ public final class PlanTest {
                 ColdBox x = made(text, "");
                 x.price(price);
                 long[] costs = new long[21];
-                for (int p = 0; p <= 20; p++) costs[p] = (long) usedThawing(x, n, p) * price / 1000;
+                for (int p = 0; p <= 20; p++) costs[p] = (long) usedThawing(made(text, ""), n, p) * price / 1000;
                 int former = -1;
                 for (int b = 0; b <= 999; b++) {
                     int best = 0;
@@ -668,7 +683,6 @@ public final class PlanTest {
     }
 
     private static int usedThawing(ColdBox x, int n, int p) {
-        x.fresh();
         for (int d = 0; d < n; d++) {
             if (p > 0 && d > 0 && d % p == 0) x.thaw();
             x.run(288);
@@ -710,18 +724,17 @@ public final class PlanTest {
         return x;
     }
 
-    /** How many FOODS are within their spans on the second DAY from the image 0 on. */
-    private static int withinByRuns(ColdBox x, int[] row) {
-        x.goBack(0);
-        int i = 0;
-        for (int f = 0; f < 8; f++) {
-            if (x.food(f, 0) >= 0 && row != null) x.lay(f, row[i++]);
-        }
-        x.run(288);
+    /** How many of larder()'s FOODS are within their spans on the second DAY; each object sees 72 of its TICKS. */
+    private static int withinByRuns(java.util.function.Supplier<ColdBox> larder, int[] row) {
         int sum = 0;
-        for (int t = 0; t < 288; t++) {
-            x.run(1);
-            for (int f = 0; f < 8; f++) sum += Math.max(0, x.food(f, 5));
+        for (int from = 0; from < 288; from += 72) {
+            ColdBox x = larder.get();
+            for (int i = 0; i < 3 && row != null; i++) x.lay(i > 0 ? i + 1 : 0, row[i]);
+            x.run(288 + from);
+            for (int t = 0; t < 72; t++) {
+                x.run(1);
+                for (int f = 0; f < 4; f++) sum += Math.max(0, x.food(f, 5));
+            }
         }
         return sum;
     }
@@ -754,14 +767,15 @@ public final class PlanTest {
         for (String text : boxes) {
             ColdBox x = larder(text);
             x.cover(true);
-            ColdBox y = larder(text);
-            y.cover(true);
-            y.keep(0);
             int most = -1;
             int[] best = null;
             for (int r = 0; r < 27; r++) {
                 int[] row = {r / 9, r / 3 % 3, r % 3};
-                int within = withinByRuns(y, row);
+                int within = withinByRuns(() -> {
+                    ColdBox y = larder(text);
+                    y.cover(true);
+                    return y;
+                }, row);
                 if (within > most) {
                     most = within;
                     best = row;
@@ -795,12 +809,16 @@ public final class PlanTest {
         String[] boxes = {"", "mix 10; on 50; off 40;", "cold 99; mix 15; on 45; off 20;"};
         for (String text : boxes) {
             ColdBox x = larder(text);
-            ColdBox y = larder(text);
-            y.keep(0);
             int most = -1, best = -1;
             for (int s = 0; s < 3; s++) {
-                box(y, text + "bulb " + s + ";");
-                int within = withinByRuns(y, null);
+                int shelf = s;
+                int within = withinByRuns(() -> {
+                    ColdBox y = larder(text);
+                    y.keep(0);
+                    box(y, text + "bulb " + shelf + ";");
+                    y.goBack(0);
+                    return y;
+                }, null);
                 if (within > most) {
                     most = within;
                     best = s;
@@ -828,20 +846,20 @@ public final class PlanTest {
         due("without 1", UNKNOWN, x.without(1));
         due("without 8", UNKNOWN, x.without(8));
         due("without -1", UNKNOWN, x.without(-1));
-        x.trouble(32 + 16);
         java.util.Set<Integer> answers = new java.util.TreeSet<>();
         for (int cap = 1; cap <= 200; cap += 19) {
             for (int low = -3000; low < 900; low += 700) {
-                ColdBox y = larder(LEAKY);
-                y.trouble(48);
-                int f = y.put(1, 450, cap, low, Math.max(low, 500 + cap * 3));
-                int got = y.without(f);
-                y.current(false);
+                int high = Math.max(low, 500 + cap * 3);
+                int got = stuckAndLit(cap, low, high).without(1);
                 int ticks = 0;
-                while (ticks <= 864) {
-                    y.run(1);
-                    if (y.food(f, 5) == 0) break;
-                    ticks++;
+                for (int from = 0; from <= 864 && ticks == from; from += 173) {
+                    ColdBox y = stuckAndLit(cap, low, high);
+                    y.current(false);
+                    if (from > 0) y.run(from);
+                    for (int t = 0; t < 173 && ticks == from + t; t++) {
+                        y.run(1);
+                        ticks += y.food(1, 5);
+                    }
                 }
                 due("without", ticks > 864 ? NONE : ticks, got);
                 answers.add(got);
@@ -856,6 +874,14 @@ public final class PlanTest {
         due("not within at all", 0, x.without(1));
     }
 
+    /** larder(), with a FOOD more, that is FOOD 1. */
+    private static ColdBox stuckAndLit(int cap, int low, int high) {
+        ColdBox x = larder(LEAKY);
+        x.trouble(32 + 16);
+        x.put(1, 450, cap, low, high);
+        return x;
+    }
+
     /** A FOOD in a box where only the light of the lamp warms: without current nothing moves at all. */
     private static void withoutByHand() {
         ColdBox x = made("wall 0; seal 0; mix 0; cold 0; food 1;", "");
@@ -866,8 +892,9 @@ public final class PlanTest {
         ColdBox y = made(slow, "");
         y.put(1, 500, 1, -3000, 9000);
         y.current(false);
+        y.run(860);
         int[] warm = new int[870];
-        for (int t = 0; t < 870; t++) {
+        for (int t = 860; t < 870; t++) {
             y.run(1);
             warm[t] = y.food(0, 1);
         }
@@ -906,16 +933,13 @@ public final class PlanTest {
             for (int a = NONE; a < 24; a += 5) {
                 for (int high = 550; high <= 1000; high += 150) {
                     ColdBox x = made(text + "on 60; off 45;", OPENED);
-                    ColdBox y = made(text + "on 60; off 45;", OPENED);
                     int b = a + 4;
                     x.cheap(a, b, 5);
                     x.price(40);
                     x.put(2, 450, 80, 100, high);
-                    y.put(2, 450, 80, 100, high);
                     int d = NONE, paid = NONE;
-                    y.keep(0);
                     for (int less = 0; less <= 40; less += 5) {
-                        int cost = paidByRuns(y, text, a, b, less, 60, 45);
+                        int cost = new ByHand(text, OPENED, 60, 45, high).paid(a, b, less);
                         if (cost != NONE && (paid == NONE || cost < paid)) {
                             d = less;
                             paid = cost;
@@ -935,39 +959,57 @@ public final class PlanTest {
     private static void storeLeftMost() {
         String text = "power 692; wall 3; seal 1; cold 82; mix 90; ";
         ColdBox x = made(text + "on 66; off 37;", "");
-        ColdBox y = made(text + "on 66; off 37;", "");
         x.price(40);
         x.cheap(11, 16, 5);
         x.put(2, 450, 80, 100, 900);
-        y.put(2, 450, 80, 100, 900);
-        y.keep(0);
+        ByHand y = new ByHand(text, "", 66, 37, 900);
         due("40 tenths", 40, x.store(2, 0));
-        due("paid by 40 tenths", paidByRuns(y, text, 11, 16, 40, 66, 37), x.store(2, 1));
-        due("35 are dearer", 1, paidByRuns(y, text, 11, 16, 35, 66, 37) > x.store(2, 1) ? 1 : 0);
+        due("paid by 40 tenths", y.paid(11, 16, 40), x.store(2, 1));
+        due("35 are dearer", 1, y.paid(11, 16, 35) > x.store(2, 1) ? 1 : 0);
     }
 
-    private static int paidByRuns(ColdBox y, String text, int a, int b, int less, int on, int off) {
-        y.goBack(0);
-        long paid = 0;
-        boolean was = false;
-        y.keep(1);
-        box(y, text + "on " + on + "; off " + off + ";");
-        y.goBack(1);
-        for (int t = 0; t < 2 * 288; t++) {
-            int hour = y.count(0) % 288 / 12;
-            boolean cheap = a != NONE && a <= hour && hour < b;
-            if (cheap != was) {
-                y.keep(1);
-                box(y, text + "on " + (on - (cheap ? less : 0)) + "; off " + Math.max(0, off - (cheap ? less : 0)) + ";");
-                y.goBack(1);
-                was = cheap;
-            }
-            int used = y.count(1);
-            y.run(1);
-            if (y.food(0, 5) == 0) return NONE;
-            paid += (y.count(1) - used) * (cheap ? 5 : 40);
+    /** What is paid over two DAYS by a box that is told anew, with another 'on' and 'off', as CHEAP HOURS begin and end. */
+    private static final class ByHand {
+        final String text, day;
+        final int on, off, high;
+
+        ByHand(String text, String day, int on, int off, int high) {
+            this.text = text;
+            this.day = day;
+            this.on = on;
+            this.off = off;
+            this.high = high;
         }
-        return (int) (paid / 1000);
+
+        private ColdBox told(ColdBox y, int less) {
+            y.keep(1);
+            box(y, text + "on " + (on - less) + "; off " + Math.max(0, off - less) + ";");
+            y.goBack(1);
+            return y;
+        }
+
+        /** The HOURS of a DAY are told by objects of their own, each from the first TICK on. */
+        int paid(int a, int b, int less) {
+            long paid = 0;
+            for (int hour = 0; hour < 48; hour++) {
+                ColdBox y = made(text + "on " + on + "; off " + off + ";", day);
+                y.put(2, 450, 80, 100, high);
+                boolean was = false;
+                for (int h = 0; h <= hour; h++) {
+                    boolean cheap = a != NONE && a <= h % 24 && h % 24 < b;
+                    if (cheap != was) told(y, cheap ? less : 0);
+                    was = cheap;
+                    if (h < hour) y.run(12);
+                }
+                for (int t = 0; t < 12; t++) {
+                    int used = y.count(1);
+                    y.run(1);
+                    if (y.food(0, 5) == 0) return NONE;
+                    paid += (y.count(1) - used) * (was ? 5 : 40);
+                }
+            }
+            return (int) (paid / 1000);
+        }
     }
 
     private static void storeByHand() {
