@@ -219,53 +219,53 @@ public final class EdgeTest {
 
     private static void texts() {
         ColdBox x = new ColdBox();
-        due("1, empty: untold", 0, x.box());
-        due("1, empty: no FAULT", NONE, x.fault());
-        due("1, blanks alone", 0, box(x, padded("", 300)));
-        due("1, blanks alone: no FAULT", NONE, x.fault());
-        due("1, THE DAY, empty", 0, x.day());
-        due("1, THE DAY, blanks alone", 0, day(x, " "));
-        due("1, 300 bytes", 1, box(x, padded("wall 5", 299) + ";"));
-        due("1, 300 bytes are read", 5, x.told(1));
-        due("1, 300 bytes, a FAULT at the last", -11, box(x, padded("", 299) + ";"));
-        due("1, its place", 299, x.fault());
-        due("1, 300 bytes, the text's length", -14, box(x, padded("on 30;", 300)));
-        due("1, its place", 300, x.fault());
-        due("1, THE DAY, 300 bytes", 1, day(x, padded("open 287 20", 299) + ";"));
-        due("1, THE DAY, no end at 300", -11, day(x, padded("open 287 20", 300)));
-        due("1, its place", 300, x.fault());
-        due("1, 'food' needs no blank", 13, box(x, "power1;wall2;seal3;mix4;cold5;food6;on8;off7;bulb0;use9;lamp10;room11;"
+        due("part 1, empty: untold", 0, x.box());
+        due("part 1, empty: no FAULT", NONE, x.fault());
+        due("part 1, blanks alone", 0, box(x, padded("", 300)));
+        due("part 1, blanks alone: no FAULT", NONE, x.fault());
+        due("part 1, THE DAY, empty", 0, x.day());
+        due("part 1, THE DAY, blanks alone", 0, day(x, " "));
+        due("part 1, 300 bytes", 1, box(x, padded("wall 5", 299) + ";"));
+        due("part 1, 300 bytes are read", 5, x.told(1));
+        due("part 1, 300 bytes, a FAULT at the last", -11, box(x, padded("", 299) + ";"));
+        due("part 1, its place", 299, x.fault());
+        due("part 1, 300 bytes, the text's length", -14, box(x, padded("on 30;", 300)));
+        due("part 1, its place", 300, x.fault());
+        due("part 1, THE DAY, 300 bytes", 1, day(x, padded("open 287 20", 299) + ";"));
+        due("part 1, THE DAY, no end at 300", -11, day(x, padded("open 287 20", 300)));
+        due("part 1, its place", 300, x.fault());
+        due("part 1, 'food' needs no blank", 13, box(x, "power1;wall2;seal3;mix4;cold5;food6;on8;off7;bulb0;use9;lamp10;room11;"
             + "stove0 1 2;"));
         int[] want = {1, 2, 3, 4, 5, 6, 8, 7, 0, 9, 10, 11, 0, 1, 2};
-        for (int what = 0; what < 15; what++) due("1, told " + what, want[what], x.told(what));
-        due("1, one to three figures", 3, box(x, "wall 00;seal 007;room 07;"));
-        due("1, noughts ahead", 7, x.told(2));
-        due("1, noughts ahead", 7, x.told(11));
+        for (int what = 0; what < 15; what++) due("part 1, told " + what, want[what], x.told(what));
+        due("part 1, one to three figures", 3, box(x, "wall 00;seal 007;room 07;"));
+        due("part 1, noughts ahead", 7, x.told(2));
+        due("part 1, noughts ahead", 7, x.told(11));
     }
 
     private static void oneClause(String clause, int what, int least, int most, int untold) {
         ColdBox x = new ColdBox();
-        due("1, untold " + clause, untold, x.told(what));
+        due("part 1, untold " + clause, untold, x.told(what));
         String more = clause.equals("on") ? "off 0;" : clause.equals("off") ? "on 200;" : "";
         boolean leastOn = clause.equals("on");
-        due("1, least " + clause, leastOn ? -14 : more.isEmpty() ? 1 : 2, box(x, clause + " " + least + ";" + more));
-        due("1, least " + clause, leastOn ? untold : least, x.told(what));
+        due("part 1, least " + clause, leastOn ? -14 : more.isEmpty() ? 1 : 2, box(x, clause + " " + least + ";" + more));
+        due("part 1, least " + clause, leastOn ? untold : least, x.told(what));
         boolean mostOff = clause.equals("off");
-        due("1, most " + clause, mostOff ? -14 : more.isEmpty() ? 1 : 2, box(x, clause + " " + most + ";" + more));
-        due("1, most " + clause, mostOff ? least : most, x.told(what));
+        due("part 1, most " + clause, mostOff ? -14 : more.isEmpty() ? 1 : 2, box(x, clause + " " + most + ";" + more));
+        due("part 1, most " + clause, mostOff ? least : most, x.told(what));
         int place = clause.length() + 1;
         if (least > 0) {
-            due("1, too small " + clause, -12, box(x, clause + " " + (least - 1) + ";" + more));
-            due("1, too small " + clause + ", its place", place, x.fault());
+            due("part 1, too small " + clause, -12, box(x, clause + " " + (least - 1) + ";" + more));
+            due("part 1, too small " + clause + ", its place", place, x.fault());
         }
-        due("1, too large " + clause, -12, box(x, clause + " " + (most + 1) + ";" + more));
-        due("1, too large " + clause + ", its place", place, x.fault());
-        due("1, four figures " + clause, -12, box(x, clause + " 000" + Math.max(1, least) + ";" + more));
-        due("1, four figures " + clause + ", its place", place, x.fault());
-        due("1, below 0 " + clause, -11, box(x, clause + " -1;" + more));
-        due("1, told twice " + clause, -13, box(x, clause + " 1 ;" + clause + " 1;"));
-        due("1, told twice " + clause + ", its place", clause.length() + 4, x.fault());
-        due("1, of FAULTS nothing is taken, " + clause, mostOff ? least : most, x.told(what));
+        due("part 1, too large " + clause, -12, box(x, clause + " " + (most + 1) + ";" + more));
+        due("part 1, too large " + clause + ", its place", place, x.fault());
+        due("part 1, four figures " + clause, -12, box(x, clause + " 000" + Math.max(1, least) + ";" + more));
+        due("part 1, four figures " + clause + ", its place", place, x.fault());
+        due("part 1, below 0 " + clause, -11, box(x, clause + " -1;" + more));
+        due("part 1, told twice " + clause, -13, box(x, clause + " 1 ;" + clause + " 1;"));
+        due("part 1, told twice " + clause + ", its place", clause.length() + 4, x.fault());
+        due("part 1, of FAULTS nothing is taken, " + clause, mostOff ? least : most, x.told(what));
     }
 
     private static void clauseBounds() {
@@ -282,14 +282,14 @@ public final class EdgeTest {
         oneClause("lamp", 10, 0, 99, 4);
         oneClause("room", 11, 0, 400, 200);
         ColdBox x = new ColdBox();
-        for (int what = 12; what < 15; what++) due("1, no stove", what < 14 ? NONE : 0, x.told(what));
-        due("1, stove, least", 1, box(x, "stove 0 1 0;"));
-        due("1, stove, most", 1, box(x, "stove 23 24 200;"));
-        due("1, stove A", 23, x.told(12));
-        due("1, stove B", 24, x.told(13));
-        due("1, stove N", 200, x.told(14));
-        due("1, stove is none again", 0, x.box());
-        due("1, stove is none again", NONE, x.told(12));
+        for (int what = 12; what < 15; what++) due("part 1, no stove", what < 14 ? NONE : 0, x.told(what));
+        due("part 1, stove, least", 1, box(x, "stove 0 1 0;"));
+        due("part 1, stove, most", 1, box(x, "stove 23 24 200;"));
+        due("part 1, stove A", 23, x.told(12));
+        due("part 1, stove B", 24, x.told(13));
+        due("part 1, stove N", 200, x.told(14));
+        due("part 1, stove is none again", 0, x.box());
+        due("part 1, stove is none again", NONE, x.told(12));
         oneFault("stove 25 26 1;", 2, 6);
         oneFault("stove 24 25 1;", 2, 9);
         oneFault("stove 24 24 1;", 2, 9);
@@ -309,9 +309,9 @@ public final class EdgeTest {
 
     private static void oneFault(String text, int number, int place) {
         ColdBox x = new ColdBox();
-        due("1, box \"" + text + "\"", -10 - number, box(x, text));
-        due("1, FAULT of \"" + text + "\"", place, x.fault());
-        due("3, THE TEXT is empty with a FAULT, too", 0, x.count(11));
+        due("part 1, box \"" + text + "\"", -10 - number, box(x, text));
+        due("part 1, FAULT of \"" + text + "\"", place, x.fault());
+        due("promise 3, THE TEXT is empty with a FAULT, too", 0, x.count(11));
     }
 
     private static void faults() {
@@ -320,17 +320,21 @@ public final class EdgeTest {
             if (b == ' ' || b == ';' || b >= '0' && b <= '9' || b >= 'a' && b <= 'z') continue;
             ColdBox x = new ColdBox();
             x.feed(1, b);
-            due("1, byte " + b, -11, x.box());
-            due("1, byte " + b + ", its place", 0, x.fault());
+            due("part 1, byte " + b, -11, x.box());
+            due("part 1, byte " + b + ", its place", 0, x.fault());
             tell(x, "wall 5");
             x.feed(1, b);
             x.feed(1, ';');
-            due("1, byte " + b + " behind a NUMBER", -11, x.box());
-            due("1, byte " + b + " behind a NUMBER, its place", 6, x.fault());
+            due("part 1, byte " + b + " behind a NUMBER", -11, x.box());
+            due("part 1, byte " + b + " behind a NUMBER, its place", 6, x.fault());
         }
         oneFault("w", 1, 0);
         oneFault("wal", 1, 0);
         oneFault("wallwall 1;", 1, 0);
+        oneFault("wallz 1;", 1, 0);
+        oneFault("awall 1;", 1, 0);
+        oneFault("wa ll 1;", 1, 0);
+        oneFault("wall 1 2;", 1, 7);
         oneFault("wall seal 1;", 1, 5);
         oneFault("wall wall 1;", 1, 5);
         oneFault(" 5;", 1, 1);
@@ -363,18 +367,18 @@ public final class EdgeTest {
         oneFault("on 0;off 0;", 4, 11);
         oneFault("on 0; off 0; wall 5", 1, 19);
         ColdBox x = new ColdBox();
-        due("1, 'off' just less", 2, box(x, "on 1;off 0;"));
-        due("1, 'on' just more than untold 'off'", 1, box(x, "on 31;"));
-        due("1, 'off' just less than untold 'on'", 1, box(x, "off 69;"));
+        due("part 1, 'off' just less", 2, box(x, "on 1;off 0;"));
+        due("part 1, 'on' just more than untold 'off'", 1, box(x, "on 31;"));
+        due("part 1, 'off' just less than untold 'on'", 1, box(x, "off 69;"));
     }
 
     private static void oneDayFault(String text, int number, int place) {
         ColdBox x = made("", "open 7 7;");
-        due("1, day \"" + text + "\"", -10 - number, day(x, text));
-        due("1, FAULT of \"" + text + "\"", place, x.fault());
-        due("4, THE TEXT is empty with a FAULT, too", 0, x.count(11));
-        due("4, THE DAY is as it was", 7, x.opening(0, 0));
-        due("4, THE DAY is as it was", NONE, x.opening(1, 0));
+        due("part 1, day \"" + text + "\"", -10 - number, day(x, text));
+        due("part 1, FAULT of \"" + text + "\"", place, x.fault());
+        due("promise 4, THE TEXT is empty with a FAULT, too", 0, x.count(11));
+        due("promise 4, THE DAY is as it was", 7, x.opening(0, 0));
+        due("promise 4, THE DAY is as it was", NONE, x.opening(1, 0));
     }
 
     private static void dayFaults() {
@@ -402,10 +406,10 @@ public final class EdgeTest {
         oneDayFault(TWELVE + "wall", 1, TWELVE.length());
         oneDayFault(TWELVE + "5", 1, TWELVE.length());
         ColdBox x = new ColdBox();
-        due("1, 12 at most", 12, day(x, TWELVE + "  "));
-        due("1, the least T, N", 1, day(x, "open 0 1;"));
-        due("1, the most T, N", 1, day(x, "open 287 20;"));
-        due("1, a T just above", 2, day(x, "open 286 20;open 287 20;"));
+        due("part 1, 12 at most", 12, day(x, TWELVE + "  "));
+        due("part 1, the least T, N", 1, day(x, "open 0 1;"));
+        due("part 1, the most T, N", 1, day(x, "open 287 20;"));
+        due("part 1, a T just above", 2, day(x, "open 286 20;open 287 20;"));
     }
 
     /** "if A is no more than its HOUR of the DAY, and that less than B". */
@@ -422,7 +426,7 @@ public final class EdgeTest {
                 for (int s = 0; s < 3; s++) want += (room - x.warmth(s)) / 100;
                 long before = x.heat(1);
                 x.run(1);
-                due("1, the stove in TICK " + t, want, x.heat(1) - before);
+                due("part 1, the stove in TICK " + t, want, x.heat(1) - before);
             }
         }
     }
@@ -445,7 +449,7 @@ public final class EdgeTest {
                 int wet = x.count(4);
                 x.run(1);
                 due("1, " + text + " in TICK " + t, open[t % 288] ? 1 : 0, x.count(1) - before);
-                due("2, WET by " + text + " in TICK " + t, open[t % 288] ? 20 : 0, x.count(4) - wet);
+                due("part 2, WET by " + text + " in TICK " + t, open[t % 288] ? 20 : 0, x.count(4) - wet);
             }
         }
     }
@@ -461,22 +465,22 @@ public final class EdgeTest {
         long in = (99 + 99 * 4 + 12 + 60) * (4800 - 500) / 100;
         x.run(1);
         long cold = 99 * 1500 / 100;
-        due("2, the most that comes in", 3 * in, x.heat(1));
-        due("2, AIR 0", (10000 + in - cold + 99 * 8500 / 100 + 20) / 20, x.warmth(0));
-        due("2, AIR 1", (10000 + in) / 20, x.warmth(1));
-        due("2, AIR 2", (10000 + in - 99 * 3500 / 100) / 20, x.warmth(2));
-        due("2, THE COIL", (-40000 + cold) / 40, x.warmth(3));
+        due("part 2, the most that comes in", 3 * in, x.heat(1));
+        due("part 2, AIR 0", (10000 + in - cold + 99 * 8500 / 100 + 20) / 20, x.warmth(0));
+        due("part 2, AIR 1", (10000 + in) / 20, x.warmth(1));
+        due("part 2, AIR 2", (10000 + in - 99 * 3500 / 100) / 20, x.warmth(2));
+        due("part 2, THE COIL", (-40000 + cold) / 40, x.warmth(3));
         // "that times 1000 / (1000 and FUR)": FUR of 0, 600, 9999.
         for (int fur : new int[] {0, 600, 9999}) {
             x = ofFur(fur);
             x.keep(0);
             box(x, "wall 0;seal 0;mix 0;cold 99;on 200;");
             x.goBack(0);
-            due("2, FUR", fur, x.count(5));
+            due("part 2, FUR", fur, x.count(5));
             x.run(1);
             cold = 1485 * 1000 / (1000 + fur);
-            due("2, AIR 0 through FUR of " + fur, (10000 - cold) / 20, x.warmth(0));
-            due("2, THE COIL through FUR of " + fur, (-40000 + cold) / 40, x.warmth(3));
+            due("part 2, AIR 0 through FUR of " + fur, (10000 - cold) / 20, x.warmth(0));
+            due("part 2, THE COIL through FUR of " + fur, (-40000 + cold) / 40, x.warmth(3));
         }
     }
 
@@ -503,51 +507,51 @@ public final class EdgeTest {
         // "THE READING is 'on' times 10 or more": by a lamp that warms AIR 0 by 1 a TICK, from 500 on.
         ColdBox x = still("on 51;off 40;bulb 0;lamp 4;");
         x.trouble(32);
-        due("2, READING of 500 to 509, 'on' 51", 0, x.run(10));
-        due("2, READING", 509, x.count(8));
-        due("2, not on", 0, x.count(9));
-        due("2, READING of 510", 1, x.run(1));
-        due("2, READING", 510, x.count(8));
-        due("2, on", 1, x.count(9));
-        due("2, it STARTS", 1, x.count(2));
-        due("2, on, it STARTS not again", 20, x.run(20));
-        due("2, STARTS", 1, x.count(2));
-        due("2, 'on' itself", 1, still("on 50;").run(1));
-        due("2, 'on' of 0 tenths is met by all", 1, still("on 1;off 0;").run(1));
+        due("part 2, READING of 500 to 509, 'on' 51", 0, x.run(10));
+        due("part 2, READING", 509, x.count(8));
+        due("part 2, not on", 0, x.count(9));
+        due("part 2, READING of 510", 1, x.run(1));
+        due("part 2, READING", 510, x.count(8));
+        due("part 2, on", 1, x.count(9));
+        due("part 2, it STARTS", 1, x.count(2));
+        due("part 2, on, it STARTS not again", 20, x.run(20));
+        due("part 2, STARTS", 1, x.count(2));
+        due("part 2, 'on' itself", 1, still("on 50;").run(1));
+        due("part 2, 'on' of 0 tenths is met by all", 1, still("on 1;off 0;").run(1));
         // "'off' times 10 or less".
         for (int lit = 0; lit < 2; lit++) {
             x = still("on 200;off 50;bulb 0;lamp 4;");
             x.trouble(16 + 32 * lit);
             x.run(1);
             x.trouble(0);
-            due("2, READING of " + (500 + lit) + ", 'off' 50", lit, x.run(1));
-            due("2, READING", 500 + lit, x.count(8));
+            due("part 2, READING of " + (500 + lit) + ", 'off' 50", lit, x.run(1));
+            due("part 2, READING", 500 + lit, x.count(8));
         }
         x = still("on 200;off 51;bulb 0;");
         x.trouble(16);
-        due("2, STUCK: on in all TICKS, though it is cold", 288, x.run(288));
-        due("2, STUCK: STARTS", 1, x.count(2));
+        due("part 2, STUCK: on in all TICKS, though it is cold", 288, x.run(288));
+        due("part 2, STUCK: STARTS", 1, x.count(2));
         x.trouble(0);
-        due("2, not STUCK: off at once", 0, x.run(5));
+        due("part 2, not STUCK: off at once", 0, x.run(5));
         // "off, .. or there is none": without current, STUCK or warm; between 'on' and 'off' it stays off then.
         x = still("on 51;off 49;");
         x.trouble(16);
         x.run(1);
         x.current(false);
-        due("2, no current, STUCK", 0, x.run(3));
-        due("2, no current, off", 0, x.count(9));
+        due("part 2, no current, STUCK", 0, x.run(3));
+        due("part 2, no current, off", 0, x.count(9));
         x.trouble(0);
         x.current(true);
-        due("2, else as it was: off", 0, x.run(3));
+        due("part 2, else as it was: off", 0, x.run(3));
         x.trouble(16);
-        due("2, STUCK again", 1, x.run(1));
-        due("2, it STARTS again", 2, x.count(2));
+        due("part 2, STUCK again", 1, x.run(1));
+        due("part 2, it STARTS again", 2, x.count(2));
         x.trouble(0);
-        due("2, else as it was: on", 3, x.run(3));
+        due("part 2, else as it was: on", 3, x.run(3));
         x = still("on 50;");
         x.current(false);
-        due("2, no current, warm", 0, x.run(2));
-        due("2, THE READING is read all the same", 500, x.count(8));
+        due("part 2, no current, warm", 0, x.run(2));
+        due("part 2, THE READING is read all the same", 500, x.count(8));
     }
 
     /** "if COVERED, the former READING and (that WARMTH less it) / 8": less than 8 up or down is nothing. */
@@ -556,9 +560,9 @@ public final class EdgeTest {
         x.trouble(32);
         x.cover(true);
         x.run(8);
-        due("2, COVERED, 7 above", 500, x.count(8));
+        due("part 2, COVERED, 7 above", 500, x.count(8));
         x.run(1);
-        due("2, COVERED, 8 above", 501, x.count(8));
+        due("part 2, COVERED, 8 above", 501, x.count(8));
         for (int below = 6; below < 10; below++) {
             x = still("on 200;bulb 0;lamp 4;");
             x.trouble(32);
@@ -567,12 +571,12 @@ public final class EdgeTest {
             x.keep(0);
             box(x, STILL + "bulb 1;");
             x.goBack(0);
-            due("2, READING ahead", 500 + below, x.count(8));
+            due("part 2, READING ahead", 500 + below, x.count(8));
             x.run(1);
-            due("2, COVERED, " + below + " below", 500 + below - below / 8, x.count(8));
+            due("part 2, COVERED, " + below + " below", 500 + below - below / 8, x.count(8));
             x.cover(false);
             x.run(1);
-            due("2, not COVERED", 500, x.count(8));
+            due("part 2, not COVERED", 500, x.count(8));
         }
         x = still("on 200;bulb 0;lamp 99;");
         x.trouble(32);
@@ -581,41 +585,41 @@ public final class EdgeTest {
         int reading = x.count(8);
         x.cover(false);
         x.cover(true);
-        due("2, COVERED: the former READING stands", reading, x.count(8));
+        due("part 2, COVERED: the former READING stands", reading, x.count(8));
         x.fresh();
         x.cover(true);
         x.run(1);
-        due("2, FRESH: the former READING is 500", 500, x.count(8));
+        due("part 2, FRESH: the former READING is 500", 500, x.count(8));
     }
 
     private static long movedOf(int power, int troubles, String room) {
         ColdBox x = still("power " + power + ";on 50;" + room);
         x.trouble(troubles);
         x.run(1);
-        due("2, THE COIL of power " + power, (-40000 - x.heat(4)) / 40, x.warmth(3));
+        due("part 2, THE COIL of power " + power, (-40000 - x.heat(4)) / 40, x.warmth(3));
         return x.heat(4);
     }
 
     private static void powerEdges() {
-        due("2, 0 at least", 0, movedOf(374, 0, ""));
-        due("2, power as much as is lost", 0, movedOf(375, 0, ""));
-        due("2, power just more", 1, movedOf(376, 0, ""));
-        due("2, the least power", 0, movedOf(1, 0, ""));
-        due("2, on though nothing is MOVED", 10, usedOf("power 1;on 50;", 0));
+        due("part 2, 0 at least", 0, movedOf(374, 0, ""));
+        due("part 2, power as much as is lost", 0, movedOf(375, 0, ""));
+        due("part 2, power just more", 1, movedOf(376, 0, ""));
+        due("part 2, the least power", 0, movedOf(1, 0, ""));
+        due("part 2, on though nothing is MOVED", 10, usedOf("power 1;on 50;", 0));
         for (int power = 251; power <= 999; power += 17) {
             long fluffed = power - power * 50 / 100;
-            due("2, FLUFFED, cut", Math.max(0, fluffed - 125), movedOf(power, 4, "room 0;"));
-            due("2, SHORT, cut", Math.max(0, power - power * 45 / 100 - 125), movedOf(power, 8, "room 0;"));
-            due("2, SHORT behind FLUFFED", Math.max(0, fluffed - fluffed * 45 / 100 - 125), movedOf(power, 12, "room 0;"));
+            due("part 2, FLUFFED, cut", Math.max(0, fluffed - 125), movedOf(power, 4, "room 0;"));
+            due("part 2, SHORT, cut", Math.max(0, power - power * 45 / 100 - 125), movedOf(power, 8, "room 0;"));
+            due("part 2, SHORT behind FLUFFED", Math.max(0, fluffed - fluffed * 45 / 100 - 125), movedOf(power, 12, "room 0;"));
         }
         // A ROOM colder than THE COIL: what is lost is below 0, and cut towards 0.
         ColdBox x = still("power 40;room 0;on 100;");
         x.thaw();
         x.run(1);
-        due("2, THE COIL of 1000 over a ROOM of 0", 40 + 125, x.heat(4));
-        due("2, THE COIL then", 995, x.warmth(3));
+        due("part 2, THE COIL of 1000 over a ROOM of 0", 40 + 125, x.heat(4));
+        due("part 2, THE COIL then", 995, x.warmth(3));
         x.run(1);
-        due("2, THE COIL of 995", 40 + 125 + 40 + 124, x.heat(4));
+        due("part 2, THE COIL of 995", 40 + 125 + 40 + 124, x.heat(4));
     }
 
     private static long usedOf(String box, int troubles) {
@@ -629,37 +633,37 @@ public final class EdgeTest {
         ColdBox x = made("wall 0;seal 99;mix 0;cold 0;room 50;on 200;", "");
         x.trouble(1);
         x.run(24);
-        due("2, FUR", 9792, x.count(5));
-        due("2, nothing PASSES", 0, x.count(7));
+        due("part 2, FUR", 9792, x.count(5));
+        due("part 2, nothing PASSES", 0, x.count(7));
         x.run(1);
-        due("2, 9999 at most", 9999, x.count(5));
-        due("2, what is above PASSES", 201, x.count(7));
+        due("part 2, 9999 at most", 9999, x.count(5));
+        due("part 2, what is above PASSES", 201, x.count(7));
         x.run(1);
-        due("2, 9999 stays", 9999, x.count(5));
-        due("2, all PASSES", 201 + 408, x.count(7));
-        due("2, WET", 26 * 408, x.count(4));
-        due("2, nothing DRAINS", 0, x.count(6));
-        due("2, FUR just below", 9998, ofFur(9998).count(5));
+        due("part 2, 9999 stays", 9999, x.count(5));
+        due("part 2, all PASSES", 201 + 408, x.count(7));
+        due("part 2, WET", 26 * 408, x.count(4));
+        due("part 2, nothing DRAINS", 0, x.count(6));
+        due("part 2, FUR just below", 9998, ofFur(9998).count(5));
         x = ofFur(9998);
         x.run(1);
-        due("2, FUR from 9998", 9999, x.count(5));
+        due("part 2, FUR from 9998", 9999, x.count(5));
         coilAroundZero();
         // "FUR loses WARMTH of THE COIL / 20 and 1 (what there is at most)": 600 are 11 times 51 and 39.
         x = still("on 200;");
         x.thaw();
         x.trouble(2);
         x.run(11);
-        due("2, FUR loses 51 a TICK", 39, x.count(5));
+        due("part 2, FUR loses 51 a TICK", 39, x.count(5));
         x.run(1);
-        due("2, what there is at most", 0, x.count(5));
-        due("2, DRAINED", 600, x.count(6));
+        due("part 2, what there is at most", 0, x.count(5));
+        due("part 2, DRAINED", 600, x.count(6));
         x.run(1);
-        due("2, no FUR: nothing DRAINS", 600, x.count(6));
+        due("part 2, no FUR: nothing DRAINS", 600, x.count(6));
         x = made("wall 0;seal 7;mix 0;cold 0;on 200;", "");
         x.thaw();
         x.run(3);
-        due("2, THE COIL is warm: WET PASSES", 21, x.count(7));
-        due("2, no FUR", 0, x.count(5));
+        due("part 2, THE COIL is warm: WET PASSES", 21, x.count(7));
+        due("part 2, no FUR", 0, x.count(5));
     }
 
     /** "if THE COIL's WARMTH (now) is below 0": HEAT of 0 to -39 is a WARMTH of 0 and DRAINS, -40 freezes. */
@@ -678,14 +682,14 @@ public final class EdgeTest {
                 coil -= power + coil / 40 / 8;
                 long warm = coil / 40;
                 fur += warm < 0 ? 3 : -(int) (warm / 20 + 1);
-                due("2, THE COIL of HEAT " + coil, fur, x.count(5));
+                due("part 2, THE COIL of HEAT " + coil, fur, x.count(5));
                 if (warm == 0 && coil < 0) cutToZero++;
                 if (warm == -1) justBelow++;
                 if (warm == 19) nineteen++;
                 if (warm == 20) twenty++;
             }
         }
-        due("2, each of these edges was met", 1, cutToZero > 0 && justBelow > 0 && twenty > 0 && nineteen > 0 ? 1 : 0);
+        due("part 2, each of these edges was met", 1, cutToZero > 0 && justBelow > 0 && twenty > 0 && nineteen > 0 ? 1 : 0);
     }
 
     private static void troubleEdges() {
@@ -693,64 +697,64 @@ public final class EdgeTest {
         int[][] furs = {{0, 600}, {1, 600}, {599, 600}, {600, 600}, {601, 601}, {9999, 9999}};
         for (int[] f : furs) {
             ColdBox x = ofFur(f[0]);
-            due("2, FUR ahead", f[0], x.count(5));
+            due("part 2, FUR ahead", f[0], x.count(5));
             x.trouble(2);
-            due("2, FURRED comes", f[1], x.count(5));
+            due("part 2, FURRED comes", f[1], x.count(5));
             x.thaw();
             x.trouble(2 + 32);
-            due("2, FURRED was there already", 0, x.count(5));
+            due("part 2, FURRED was there already", 0, x.count(5));
             x.trouble(32);
-            due("2, FURRED goes", 0, x.count(5));
+            due("part 2, FURRED goes", 0, x.count(5));
             x.trouble(2);
-            due("2, FURRED comes again", 600, x.count(5));
+            due("part 2, FURRED comes again", 600, x.count(5));
         }
         // AJAR: "'seal' counts fourfold, and 12 more".
         for (int seal : new int[] {0, 1, 99}) {
             ColdBox x = made("wall 0;seal " + seal + ";mix 0;cold 0;on 200;", "open 1 1;");
             x.trouble(1);
             x.run(1);
-            due("2, AJAR, WET of seal " + seal, 4 * seal + 12, x.count(4));
-            due("2, AJAR, HEAT of seal " + seal, 3 * (4 * seal + 12) * 15, x.heat(1));
+            due("part 2, AJAR, WET of seal " + seal, 4 * seal + 12, x.count(4));
+            due("part 2, AJAR, HEAT of seal " + seal, 3 * (4 * seal + 12) * 15, x.heat(1));
             x.fresh();
             x.run(2);
-            due("2, AJAR and the door, WET of seal " + seal, 2 * (4 * seal + 12) + 20, x.count(4));
+            due("part 2, AJAR and the door, WET of seal " + seal, 2 * (4 * seal + 12) + 20, x.count(4));
         }
         // LIT: in all TICKS, once a TICK if the door is open, too; not without current.
         ColdBox x = made(STILL + "on 200;lamp 99;", "open 1 2;");
         x.trouble(32);
         x.run(4);
-        due("2, LIT and the door", 4 * 99, x.count(1));
-        due("2, LIT gives HEAT times 5", 4 * 99 * 5, x.heat(3));
+        due("part 2, LIT and the door", 4 * 99, x.count(1));
+        due("part 2, LIT gives HEAT times 5", 4 * 99 * 5, x.heat(3));
         x.current(false);
         x.run(4);
-        due("2, LIT without current", 4 * 99, x.count(1));
-        due("2, the door lets WET in without current", 40, x.count(4));
-        due("2, no lamp", 0, usedOf("lamp 0;on 200;", 32));
+        due("part 2, LIT without current", 4 * 99, x.count(1));
+        due("part 2, the door lets WET in without current", 40, x.count(4));
+        due("part 2, no lamp", 0, usedOf("lamp 0;on 200;", 32));
         // PLACED: 800 more.
         x = made("wall 1;seal 0;mix 0;cold 0;on 200;room 0;", "");
         x.trouble(64);
         x.run(1);
-        due("2, PLACED in a ROOM of 0", 3 * 3, x.heat(1));
+        due("part 2, PLACED in a ROOM of 0", 3 * 3, x.heat(1));
     }
 
     // ---- part 3: signs
 
     private static void signEdges() {
         ColdBox x = still("on 51;off 49;use 99;lamp 99;");
-        due("3, all TICKS", 288, x.sign(16, 1, 0));
-        due("3, STARTS in the first DAY", 1, x.sign(16, 1, 1));
-        due("3, STARTS in the last DAY", 0, x.sign(16, 2, 1));
-        due("3, never on", 0, x.sign(0, 6, 0));
-        due("3, AIR as at first", 500, x.sign(0, 6, 3));
-        due("3, FUR of none", 0, x.sign(0, 6, 5));
-        due("3, FUR of FURRED", 600, x.sign(2, 6, 5));
-        due("3, USED in the last DAY alone", 288 * 198, x.sign(48, 6, 6));
-        due("3, nothing USED", 0, x.sign(0, 1, 6));
+        due("part 3, all TICKS", 288, x.sign(16, 1, 0));
+        due("part 3, STARTS in the first DAY", 1, x.sign(16, 1, 1));
+        due("part 3, STARTS in the last DAY", 0, x.sign(16, 2, 1));
+        due("part 3, never on", 0, x.sign(0, 6, 0));
+        due("part 3, AIR as at first", 500, x.sign(0, 6, 3));
+        due("part 3, FUR of none", 0, x.sign(0, 6, 5));
+        due("part 3, FUR of FURRED", 600, x.sign(2, 6, 5));
+        due("part 3, USED in the last DAY alone", 288 * 198, x.sign(48, 6, 6));
+        due("part 3, nothing USED", 0, x.sign(0, 1, 6));
         x.current(false);
-        due("3, with current", 288, x.sign(16, 1, 0));
-        due("3, current is as it was", 0, x.current(false));
+        due("part 3, with current", 288, x.sign(16, 1, 0));
+        due("part 3, current is as it was", 0, x.current(false));
         x = made("wall 0;seal 99;mix 0;cold 0;room 50;on 200;", "");
-        due("3, FUR of 9999", 9999, x.sign(1, 1, 5));
+        due("part 3, FUR of 9999", 9999, x.sign(1, 1, 5));
     }
 
     private static ColdBox sureOfNone() {
@@ -763,59 +767,59 @@ public final class EdgeTest {
         // "halved (cut) as often as E goes into its difference", and "20 times at most": a MILLION halved 19 times is 1.
         ColdBox x = sureOfNone();
         int shown = x.sign(0, 1, 2);
-        due("3, a SIGN of a still box", 500, shown);
+        due("part 3, a SIGN of a still box", 500, shown);
         int[] far = {0, 1, 18, 19, 20, 21, 31, 32, 33, 63, 64, 65, 127, 128, 9999};
         for (int d : far) {
             for (int sign = -1; sign <= 1; sign += 2) {
                 x.seen(2, shown + sign * d, 1);
-                due("3, halved " + d + " times", d < 20 ? 1000000 : 0, x.odds(0, 1));
-                due("3, halved " + d + " times, another SET", 0, x.odds(1, 1));
+                due("part 3, halved " + d + " times", d < 20 ? 1000000 : 0, x.odds(0, 1));
+                due("part 3, halved " + d + " times, another SET", 0, x.odds(1, 1));
             }
         }
         x.seen(2, -99999, 1);
-        due("3, a difference of 100499", 0, x.odds(0, 1));
+        due("part 3, a difference of 100499", 0, x.odds(0, 1));
         x.seen(2, 99999, 999);
-        due("3, a difference of 99499 by 999 (20 times at most)", 0, x.odds(0, 1));
+        due("part 3, a difference of 99499 by 999 (20 times at most)", 0, x.odds(0, 1));
         x.forget();
-        due("3, SEEN no more", 1000000, x.odds(0, 1));
+        due("part 3, SEEN no more", 1000000, x.odds(0, 1));
         // FUR of FURRED is 600 in the still box, 0 without: E of 601, 600, 301, 300 goes 0, 1, 1, 2 times into it.
         x.prior(1, 500);
         int[][] halvings = {{999, 0}, {601, 0}, {600, 1}, {301, 1}, {300, 2}, {201, 2}, {200, 3}, {1, 20}};
         for (int[] h : halvings) {
             x.seen(5, 600, h[0]);
             long none = 500000 >> h[1];
-            due("3, E of " + h[0], 1000000L * 500000 / (500000 + none), x.odds(2, 1));
-            due("3, E of " + h[0], 1000000L * none / (500000 + none), x.odds(0, 1));
-            due("3, E of " + h[0], x.odds(2, 1), x.each(1, 1));
+            due("part 3, E of " + h[0], 1000000L * 500000 / (500000 + none), x.odds(2, 1));
+            due("part 3, E of " + h[0], 1000000L * none / (500000 + none), x.odds(0, 1));
+            due("part 3, E of " + h[0], x.odds(2, 1), x.each(1, 1));
         }
         // "in order": 'of several SIGNS each halves'.
         x.seen(5, 0, 600);
         x.seen(2, 501, 1);
         x.seen(3, 499, 1);
-        due("3, three SIGNS", 1000000L * 62500 / (62500 + 125000), x.odds(2, 1));
-        // "0, if all are 0": PRIORS that are sure of three; WEIGHTS that are cut to 0 one by one.
+        due("part 3, three SIGNS", 1000000L * 62500 / (62500 + 125000), x.odds(2, 1));
+        // "part 0, if all are 0": PRIORS that are sure of three; WEIGHTS that are cut to 0 one by one.
         x = sureOfNone();
         for (int k = 0; k < 3; k++) x.prior(k, 1000);
-        allZero("3, sure of three", x);
+        allZero("part 3, sure of three", x);
         x = sureOfNone();
         for (int k = 0; k < 7; k++) x.prior(k, 999);
-        allZero("3, cut to 0", x);
+        allZero("part 3, cut to 0", x);
         x = sureOfNone();
         x.prior(0, 1000);
         x.prior(6, 1000);
-        due("3, sure of two", 1000000, x.odds(65, 1));
-        due("3, sure of two, none", 0, x.odds(0, 1));
-        due("3, sure of two, each", 1000000, x.each(6, 1));
+        due("part 3, sure of two", 1000000, x.odds(65, 1));
+        due("part 3, sure of two, none", 0, x.odds(0, 1));
+        due("part 3, sure of two, each", 1000000, x.each(6, 1));
         // "/ 1000 (cut ..)" at each TROUBLE: 1000000, 1000, 1 for two of 1; of one of 1 and 998 left of others.
         x = sureOfNone();
         x.prior(0, 1);
         x.prior(1, 1);
-        due("3, WEIGHT of none", 1000000L * 998001 / (998001 + 999 + 999 + 1), x.odds(0, 1));
-        due("3, WEIGHT of one", 1000000L * 999 / (998001 + 999 + 999 + 1), x.odds(1, 1));
-        due("3, WEIGHT of two", 1, x.odds(3, 1));
+        due("part 3, WEIGHT of none", 1000000L * 998001 / (998001 + 999 + 999 + 1), x.odds(0, 1));
+        due("part 3, WEIGHT of one", 1000000L * 999 / (998001 + 999 + 999 + 1), x.odds(1, 1));
+        due("part 3, WEIGHT of two", 1, x.odds(3, 1));
         x.prior(2, 1);
-        due("3, WEIGHT of two, cut", 0, x.odds(5, 1));
-        due("3, all WEIGHTS are cut", 1000000L * 998 / (997002 + 998 + 998 + 998), x.odds(1, 1));
+        due("part 3, WEIGHT of two, cut", 0, x.odds(5, 1));
+        due("part 3, all WEIGHTS are cut", 1000000L * 998 / (997002 + 998 + 998 + 998), x.odds(1, 1));
     }
 
     private static void allZero(String what, ColdBox x) {
@@ -831,102 +835,122 @@ public final class EdgeTest {
     private static void classEdges() {
         // "0 of no WEIGHT"; one class tells nothing, two like ones 500; FUR of 600 and 0 by E.
         ColdBox x = sureOfNone();
-        due("3, one SET: nothing is told", 0, x.tells(5, 1));
+        due("part 3, one SET: nothing is told", 0, x.tells(5, 1));
         x.prior(1, 500);
-        due("3, by E 50", 500, x.tells(5, 1));
-        due("3, all alike", 0, x.tells(2, 1));
+        due("part 3, by E 50", 500, x.tells(5, 1));
+        due("part 3, all alike", 0, x.tells(2, 1));
         x.seen(5, 300, 601);
-        due("3, by E 601: one class", 0, x.tells(5, 1));
+        due("part 3, by E 601: one class", 0, x.tells(5, 1));
         x.seen(5, 300, 600);
-        due("3, by E 600: two classes", 500, x.tells(5, 1));
+        due("part 3, by E 600: two classes", 500, x.tells(5, 1));
         x.forget();
         x.prior(1, 1);
-        due("3, 1000 less what is cut", 1000 - 1000L * (999000L * 999000 + 1000L * 1000) / 1000000000000L, x.tells(5, 1));
+        due("part 3, 1000 less what is cut", 1000 - 1000L * (999000L * 999000 + 1000L * 1000) / 1000000000000L, x.tells(5, 1));
+        // By E 50: USED of LIT is 288, of STUCK as many TICKS more as the door is open; none is 11 or 12, both are 576.
+        for (int open = 11; open <= 12; open++) {
+            x = made(STILL + "on 200;use 1;lamp 1;", "open 9 " + open + ";");
+            for (int k = 0; k < 7; k++) x.prior(k, k == 4 || k == 5 ? 500 : 0);
+            due("part 3, USED of LIT", 288, x.sign(32, 1, 6));
+            due("part 3, USED of STUCK", 288 + open, x.sign(16, 1, 6));
+            due("part 3, by E 50: 288 and " + (288 + open), open == 11 ? 1000 - 1000 * 6 / 16 : 750, x.tells(6, 1));
+            x.seen(6, 0, 51);
+            x.forget();
+            due("part 3, by E 50 again", open == 11 ? 1000 - 1000 * 6 / 16 : 750, x.tells(6, 1));
+        }
         // "(cut)" is towards 0: by an E just above both, a WARMTH below 0 and one above 0 are one class.
         x = made("power 665; lamp 4; cold 90;", "");
         for (int k = 0; k < 7; k++) x.prior(k, k == 4 ? 1000 : k == 5 ? 500 : 0);
         int below = x.sign(16, 1, 2), above = x.sign(48, 1, 2);
-        due("3, one SET shows less than 0, the other more", 1, below < 0 && above > 0 ? 1 : 0);
+        due("part 3, one SET shows less than 0, the other more", 1, below < 0 && above > 0 ? 1 : 0);
         int far = Math.max(-below, above);
-        due("3, not as far", 1, -below != above ? 1 : 0);
+        due("part 3, not as far", 1, -below != above ? 1 : 0);
         x.seen(2, 0, far + 1);
-        due("3, a class from below 0 to above 0", 0, x.tells(2, 1));
+        due("part 3, a class from below 0 to above 0", 0, x.tells(2, 1));
         x.seen(2, 0, far);
-        due("3, by an E less by 1: two classes, one halved", 1000 - 1000 * 5 / 9, x.tells(2, 1));
+        due("part 3, by an E less by 1: two classes, one halved", 1000 - 1000 * 5 / 9, x.tells(2, 1));
     }
 
     private static void nextEdges() {
         ColdBox x = sureOfNone();
-        due("3, of like ones the least", 0, x.next(6));
+        due("part 3, of like ones the least", 0, x.next(6));
         for (int what = 0; what < 7; what++) {
             x.seen(what, 0, 999);
-            due("3, of those not SEEN", what < 6 ? what + 1 : NONE, x.next(6));
+            due("part 3, of those not SEEN", what < 6 ? what + 1 : NONE, x.next(6));
         }
         x.forget();
-        due("3, not SEEN any more", 0, x.next(6));
+        due("part 3, not SEEN any more", 0, x.next(6));
         for (int what = 0; what < 7; what++) x.bother(what, 999);
-        due("3, all bother most", 0, x.next(1));
+        due("part 3, all bother most", 0, x.next(1));
         x.bother(6, 998);
-        due("3, less its BOTHER", 6, x.next(1));
+        due("part 3, less its BOTHER", 6, x.next(1));
         x.seen(6, 0, 1);
-        due("3, not SEEN", 0, x.next(1));
+        due("part 3, not SEEN", 0, x.next(1));
         // FUR TELLS 500: a BOTHER of 499 leaves it, of 500 makes it like, of 501 worse.
         x = sureOfNone();
         x.prior(1, 500);
-        due("3, TELLS most", 5, x.next(1));
+        due("part 3, TELLS most", 5, x.next(1));
         x.bother(5, 499);
-        due("3, TELLS most less 499", 5, x.next(1));
+        due("part 3, TELLS most less 499", 5, x.next(1));
         x.bother(5, 500);
-        due("3, like ones", 0, x.next(1));
+        due("part 3, like ones", 0, x.next(1));
         for (int what = 0; what < 5; what++) x.bother(what, 1);
-        due("3, like ones", 5, x.next(1));
+        due("part 3, like ones", 5, x.next(1));
         x.bother(5, 501);
-        due("3, worse by 1", 6, x.next(1));
+        due("part 3, worse by 1", 6, x.next(1));
     }
 
     private static void makesEdges() {
         // FUR of "600 or more" at a DAY's end: 30 TICKS of open door are 600, 29 are 580.
-        due("3, FUR of 600 on the first DAY", 1, made(STILL + "on 200;", "open 0 20;open 20 10;").makes(0, 0));
-        due("3, FUR of 580 on the first DAY", 2, made(STILL + "on 200;", "open 0 20;open 20 9;").makes(0, 0));
-        due("3, FUR of 600 on the 30th DAY", 30, made(STILL + "on 200;", "open 0 1;").makes(0, 0));
-        due("3, no FUR", NONE, still("on 200;").makes(0, 0));
-        due("3, FURRED", 1, still("on 200;").makes(2, 0));
+        due("part 3, FUR of 600 on the first DAY", 1, made(STILL + "on 200;", "open 0 20;open 20 10;").makes(0, 0));
+        due("part 3, FUR of 580 on the first DAY", 2, made(STILL + "on 200;", "open 0 20;open 20 9;").makes(0, 0));
+        due("part 3, FUR of 600 on the 30th DAY", 30, made(STILL + "on 200;", "open 0 1;").makes(0, 0));
+        due("part 3, no FUR", NONE, still("on 200;").makes(0, 0));
+        due("part 3, FURRED", 1, still("on 200;").makes(2, 0));
         // On in all TICKS: the door warms AIR in each DAY's last TICK, so a DAY is on in all or in none.
         int thirtieth = 0, late = 0;
         for (int on = 50; on <= 160; on++) {
             int day = 1;
             for (long heat = 10000; heat / 20 < 10 * on; heat += 60 * (2000 - heat / 20) / 100) day++;
             ColdBox x = made(STILL + "bulb 0;lamp 0;off 0;on " + on + ";", "open 287 1;");
-            due("3, on in all TICKS, 'on' " + on, day <= 30 ? day : NONE, x.makes(0, 1));
+            due("part 3, on in all TICKS, 'on' " + on, day <= 30 ? day : NONE, x.makes(0, 1));
             if (day == 30) thirtieth++;
             if (day == 31) late++;
         }
-        due("3, the 30th DAY, the 31st", 1, thirtieth > 0 && late > 0 ? 1 : 0);
+        due("part 3, the 30th DAY, the 31st", 1, thirtieth > 0 && late > 0 ? 1 : 0);
         // 287 TICKS are not all: the door warms in the DAY's first TICK.
-        due("3, 287 TICKS", 2, made(STILL + "bulb 0;lamp 0;on 51;", "open 0 1;").makes(0, 1));
-        due("3, STUCK", 1, still("on 200;").makes(16, 1));
-        due("3, never on", NONE, still("on 200;").makes(14, 1));
+        due("part 3, 287 TICKS", 2, made(STILL + "bulb 0;lamp 0;on 51;", "open 0 1;").makes(0, 1));
+        due("part 3, STUCK", 1, still("on 200;").makes(16, 1));
+        due("part 3, never on", NONE, still("on 200;").makes(14, 1));
     }
 
     // ---- part 4: money
 
     private static void moneyEdges() {
         ColdBox x = still("on 200;use 1;lamp 0;");
-        due("4, YEAR of 288 a DAY, cut", 288 * 365 * 30 / 1000, x.year(16));
+        due("part 4, YEAR of 288 a DAY, cut", 288 * 365 * 30 / 1000, x.year(16));
         x.price(1);
-        due("4, YEAR at 1, cut", 105, x.year(16));
+        due("part 4, YEAR at 1, cut", 105, x.year(16));
         x.price(0);
-        due("4, YEAR at 0", 0, x.year(16));
+        due("part 4, YEAR at 0", 0, x.year(16));
         x.price(999);
-        due("4, YEAR of nothing", 0, x.year(0));
-        due("4, SAVES all", x.year(127), x.saves(127, 127));
-        due("4, SAVES by none", 0, x.saves(127, 0));
-        due("4, SAVES of none by none", 0, x.saves(0, 0));
-        due("4, no part by one bit", NOT, x.saves(126, 1));
-        due("4, no part of none", NOT, x.saves(0, 64));
+        due("part 4, YEAR of nothing", 0, x.year(0));
+        due("part 4, SAVES all", x.year(127), x.saves(127, 127));
+        due("part 4, SAVES by none", 0, x.saves(127, 0));
+        due("part 4, SAVES of none by none", 0, x.saves(0, 0));
+        due("part 4, no part by one bit", NOT, x.saves(126, 1));
+        due("part 4, no part of none", NOT, x.saves(0, 64));
+        // "USED of the last of two DAYS": the door warms AIR 0 to 545 and to 588 at the DAYS' ends.
+        for (int on = 50; on < 60; on++) {
+            x = made(STILL + "bulb 0;off 0;lamp 0;on " + on + ";", "open 287 1;");
+            due("part 4, YEAR if it is on from " + on, on <= 54 ? 2880 * 365 * 30 / 1000 : 0, x.year(0));
+        }
+        for (int from = 0; from < 2; from++) {
+            x = made(STILL + "on 200;lamp 1;", from == 0 ? "open 0 1;" : "open 287 1;");
+            due("part 4, YEAR of a TICK's lamp", 1 * 365 * 30 / 1000, x.year(0));
+        }
         x = made("use 99;lamp 99;room 400;", "");
         x.price(999);
-        due("4, the most", 288L * 198 * 365 * 999 / 1000, x.year(48));
+        due("part 4, the most", 288L * 198 * 365 * 999 / 1000, x.year(48));
     }
 
     private static void bestEdges() {
@@ -935,48 +959,56 @@ public final class EdgeTest {
         x.mending(4, 60);
         x.mending(5, 61);
         int year = x.year(16);
-        due("4, both alike", year, x.year(32));
+        due("part 4, both alike", year, x.year(32));
         int[][] want = {{0, 0}, {59, 0}, {60, 16}, {61, 16}, {120, 16}, {121, 48}, {9999, 48}};
         for (int[] w : want) {
-            due("4, the best for " + w[0], w[1], x.best(48, w[0], 0));
-            due("4, it SAVES", x.saves(48, w[1]), x.best(48, w[0], 1));
-            due("4, its cost", w[1] == 48 ? 121 : w[1] == 16 ? 60 : 0, x.best(48, w[0], 2));
+            due("part 4, the best for " + w[0], w[1], x.best(48, w[0], 0));
+            due("part 4, it SAVES", x.saves(48, w[1]), x.best(48, w[0], 1));
+            due("part 4, its cost", w[1] == 48 ? 121 : w[1] == 16 ? 60 : 0, x.best(48, w[0], 2));
         }
         x.mending(4, 62);
-        due("4, of like ones the cheapest", 32, x.best(48, 99, 0));
+        due("part 4, of like ones the cheapest", 32, x.best(48, 99, 0));
         x.mending(4, 61);
-        due("4, then the least SET", 16, x.best(48, 99, 0));
+        due("part 4, then the least SET", 16, x.best(48, 99, 0));
         x.mending(0, 0);
-        due("4, for nothing, SAVES nothing: the least SET", 16, x.best(49, 99, 0));
-        due("4, none there", 0, x.best(0, 9999, 0));
-        due("4, none there: its cost", 0, x.best(0, 9999, 2));
-        due("4, nothing to save", 0, x.best(78, 9999, 0));
+        due("part 4, for nothing, SAVES nothing: the least SET", 16, x.best(49, 99, 0));
+        due("part 4, none there", 0, x.best(0, 9999, 0));
+        due("part 4, none there: its cost", 0, x.best(0, 9999, 2));
+        due("part 4, nothing to save", 0, x.best(78, 9999, 0));
         x.mending(4, 0);
-        due("4, for no coins", 16, x.best(48, 0, 0));
+        due("part 4, for no coins", 16, x.best(48, 0, 0));
         x.price(0);
-        due("4, PRICE of 0: none", 0, x.best(48, 9999, 0));
+        due("part 4, PRICE of 0: none", 0, x.best(48, 9999, 0));
         for (int k = 0; k < 7; k++) x.mending(k, 999);
         x.price(999);
-        due("4, all cost most", 48, x.best(126, 9999, 0));
-        due("4, a coin too few", 16, x.best(48, 2 * 999 - 1, 0));
+        due("part 4, all cost most", 48, x.best(126, 9999, 0));
+        due("part 4, a coin too few", 16, x.best(48, 2 * 999 - 1, 0));
+        // STUCK is on for three TICKS more of the second DAY: 288 and 285 USED are a YEAR of 105 and 104.
+        x = made(STILL + "bulb 0;on 58;off 0;lamp 0;use 1;", "open 2 1;");
+        x.price(1);
+        due("part 4, a coin to save", 1, x.saves(16, 16));
+        due("part 4, a coin to save: the best", 16, x.best(16, 50, 0));
+        due("part 4, a coin to save: SAVES", 1, x.best(16, 50, 1));
+        x.price(2);
+        due("part 4, two coins to save", 2, x.saves(16, 16));
     }
 
     private static void paysEdges() {
         ColdBox x = still("on 200;use 10;lamp 0;");
         x.price(100);
-        due("4, YEAR", 105120, x.year(16));
-        due("4, a NEW one's, cut", 105083, 2879 * 365 * 100 / 1000);
+        due("part 4, YEAR", 105120, x.year(16));
+        due("part 4, a NEW one's, cut", 105083, 2879 * 365 * 100 / 1000);
         int[][] want = {{0, 1}, {1, 1}, {36, 1}, {37, 1}, {38, 2}, {74, 2}, {75, 3}, {29 * 37, 29}, {29 * 37 + 1, 30},
             {30 * 37, 30}, {30 * 37 + 1, NONE}, {99999, NONE}};
-        for (int[] w : want) due("4, PAYS " + w[0], w[1], x.pays(16, w[0], 2879));
-        due("4, it uses as much, for nothing", 1, x.pays(16, 0, 2880));
-        due("4, it uses as much", NONE, x.pays(16, 1, 2880));
-        due("4, it uses more, for nothing", NONE, x.pays(16, 0, 2881));
-        due("4, it uses most", NONE, x.pays(0, 0, 9999));
-        due("4, it uses nothing", 1, x.pays(16, 99999, 0));
+        for (int[] w : want) due("part 4, PAYS " + w[0], w[1], x.pays(16, w[0], 2879));
+        due("part 4, it uses as much, for nothing", 1, x.pays(16, 0, 2880));
+        due("part 4, it uses as much", NONE, x.pays(16, 1, 2880));
+        due("part 4, it uses more, for nothing", NONE, x.pays(16, 0, 2881));
+        due("part 4, it uses most", NONE, x.pays(0, 0, 9999));
+        due("part 4, it uses nothing", 1, x.pays(16, 99999, 0));
         x.price(0);
-        due("4, PRICE of 0, for nothing", 1, x.pays(0, 0, 9999));
-        due("4, PRICE of 0", NONE, x.pays(16, 1, 0));
+        due("part 4, PRICE of 0, for nothing", 1, x.pays(0, 0, 9999));
+        due("part 4, PRICE of 0", NONE, x.pays(16, 1, 0));
     }
 
     private static long usedThawing(String box, int n, int p) {
@@ -1010,18 +1042,18 @@ public final class EdgeTest {
         for (int n : new int[] {1, 2, 3, 19, 20}) {
             for (int b : new int[] {0, 1, 100, 999}) {
                 int want = icePaid(text, n, b, 999);
-                due("4, THE ICE of " + n + " DAYS, bother " + b, want, x.ice(0, n, b));
-                if (n == 1) due("4, THAWED not on the first DAY", 0, want);
+                due("part 4, THE ICE of " + n + " DAYS, bother " + b, want, x.ice(0, n, b));
+                if (n == 1) due("part 4, THAWED not on the first DAY", 0, want);
                 if (want != NONE) found[want] = true;
             }
         }
         int often = 0;
         for (int p = 1; p <= 20; p++) often += found[p] ? 1 : 0;
-        due("4, some p are best, and never", 1, found[0] && often > 1 ? 1 : 0);
-        due("4, of like ones the least: all alike", 0, still("on 200;").ice(127, 20, 0));
+        due("part 4, some p are best, and never", 1, found[0] && often > 1 ? 1 : 0);
+        due("part 4, of like ones the least: all alike", 0, still("on 200;").ice(127, 20, 0));
         x.price(0);
-        due("4, a PRICE of 0: never", 0, x.ice(0, 20, 0));
-        due("4, a PRICE of 0: never", 0, x.ice(0, 20, 999));
+        due("part 4, a PRICE of 0: never", 0, x.ice(0, 20, 0));
+        due("part 4, a PRICE of 0: never", 0, x.ice(0, 20, 999));
     }
 
     // ---- part 4: plans
@@ -1040,74 +1072,74 @@ public final class EdgeTest {
             ColdBox x = warming(9000);
             x.run(t + 1);
             warm[t] = x.food(0, 1);
-            if (t > 0) due("4, it warms on", 1, warm[t] > warm[t - 1] ? 1 : 0);
+            if (t > 0) due("part 4, it warms on", 1, warm[t] > warm[t - 1] ? 1 : 0);
         }
         return warm;
     }
 
     private static void lyingEdges() {
         ColdBox x = new ColdBox();
-        due("4, no FOODS", 0, x.lying(NONE));
+        due("part 4, no FOODS", 0, x.lying(NONE));
         x = still("");
         for (int f = 0; f < 6; f++) x.put(2, 500, 1, 500, 500);
-        due("4, six FOODS", 6 * 288, x.lying(NONE));
-        for (int f = 0; f < 6; f++) due("4, of like ones the first", 0, x.lying(f));
+        due("part 4, six FOODS", 6 * 288, x.lying(NONE));
+        for (int f = 0; f < 6; f++) due("part 4, of like ones the first", 0, x.lying(f));
         x.put(2, 500, 1, 500, 500);
-        due("4, seven FOODS", NOT, x.lying(NONE));
+        due("part 4, seven FOODS", NOT, x.lying(NONE));
         x.put(2, 500, 1, 500, 500);
-        due("4, eight FOODS", NOT, x.lying(7));
+        due("part 4, eight FOODS", NOT, x.lying(7));
         x.take(0);
         x.take(3);
-        due("4, six again", 6 * 288, x.lying(NONE));
-        due("4, taken", UNKNOWN, x.lying(3));
+        due("part 4, six again", 6 * 288, x.lying(NONE));
+        due("part 4, taken", UNKNOWN, x.lying(3));
         // "at the end of each TICK of the second DAY from now".
         int[] warm = warmths(600);
         for (int last : new int[] {0, 287, 288, 289, 574, 575, 576, 577}) {
             x = last == 0 ? warming(499) : warming(warm[last - 1]);
-            due("4, within for " + last + " TICKS", Math.max(0, Math.min(last - 288, 288)), x.lying(NONE));
-            due("4, lying within for " + last + " TICKS", 0, x.lying(0));
-            due("4, the bulb, within for " + last + " TICKS", Math.max(0, Math.min(last - 288, 288)), x.bulb(1));
+            due("part 4, within for " + last + " TICKS", Math.max(0, Math.min(last - 288, 288)), x.lying(NONE));
+            due("part 4, lying within for " + last + " TICKS", 0, x.lying(0));
+            due("part 4, the bulb, within for " + last + " TICKS", Math.max(0, Math.min(last - 288, 288)), x.bulb(1));
         }
     }
 
     private static void bulbEdges() {
         ColdBox x = new ColdBox();
-        due("4, the bulb of no FOODS", 0, x.bulb(0));
-        due("4, the bulb of no FOODS", 0, x.bulb(1));
+        due("part 4, the bulb of no FOODS", 0, x.bulb(0));
+        due("part 4, the bulb of no FOODS", 0, x.bulb(1));
         x = still("bulb 2;");
         for (int f = 0; f < 8; f++) x.put(2, 500, 1, 500, 500);
-        due("4, the bulb of eight FOODS", 8 * 288, x.bulb(1));
-        due("4, of like ones the least", 0, x.bulb(0));
-        due("4, THE BOX's bulb stays", 2, x.told(8));
+        due("part 4, the bulb of eight FOODS", 8 * 288, x.bulb(1));
+        due("part 4, of like ones the least", 0, x.bulb(0));
+        due("part 4, THE BOX's bulb stays", 2, x.told(8));
         for (int f = 0; f < 8; f++) x.take(f);
         x.put(0, 500, 1, 501, 501);
-        due("4, none within", 0, x.bulb(1));
-        due("4, none within: the least", 0, x.bulb(0));
+        due("part 4, none within", 0, x.bulb(1));
+        due("part 4, none within: the least", 0, x.bulb(0));
     }
 
     private static void withoutEdges() {
         int[] warm = warmths(870);
         for (int last : new int[] {1, 2, 288, 575, 576, 863, 864, 865, 866}) {
-            due("4, WITHOUT CURRENT for " + last + " TICKS", last > 864 ? NONE : last, warming(warm[last - 1]).without(0));
+            due("part 4, WITHOUT CURRENT for " + last + " TICKS", last > 864 ? NONE : last, warming(warm[last - 1]).without(0));
         }
         ColdBox x = warming(9000);
         x.put(0, 400, 1, -3000, 400);
-        due("4, it is within now", 1, x.food(1, 5));
-        due("4, not at the end of the first TICK", 0, x.without(1));
-        due("4, longer", NONE, warming(9000).without(0));
+        due("part 4, it is within now", 1, x.food(1, 5));
+        due("part 4, not at the end of the first TICK", 0, x.without(1));
+        due("part 4, longer", NONE, warming(9000).without(0));
         // Out of its span now, within at the end of the first TICK.
         x = warming(9000);
         x.put(0, 0, 1, 1, 9000);
-        due("4, not within now", 0, x.food(1, 5));
-        due("4, within at the end of each", NONE, x.without(1));
+        due("part 4, not within now", 0, x.food(1, 5));
+        due("part 4, within at the end of each", NONE, x.without(1));
         // The span's lower end.
         x = made("wall 9;seal 0;mix 0;cold 0;room 0;food 50;on 200;", "");
         x.put(0, 500, 1, 400, 9000);
         int ticks = x.without(0);
         x.run(ticks);
-        due("4, within by its lower end", 1, x.food(0, 5));
+        due("part 4, within by its lower end", 1, x.food(0, 5));
         x.run(1);
-        due("4, below its lower end", 0, x.food(0, 5));
+        due("part 4, below its lower end", 0, x.food(0, 5));
     }
 
     private static void cheapEdges() {
@@ -1119,31 +1151,40 @@ public final class EdgeTest {
                 x.trouble(16);
                 x.run(from + 1);
                 x.price(100);
-                due("42, cheap", 1, x.cheap(h[0], h[1], 7));
+                due("promise 42, cheap", 1, x.cheap(h[0], h[1], 7));
                 for (int n = 1; n <= 6; n += 5) {
                     long paid = 0;
                     for (int t = 0; t < 288 * n; t++) {
                         int hour = (from + 1 + t) % 288 / 12;
                         paid += 10 * (h[0] != NONE && h[0] <= hour && hour < h[1] ? 7 : 100);
                     }
-                    due("4, paid from TICK " + (from + 1) + ", " + h[0] + " to " + h[1], paid / 1000, x.store(n, 1));
-                    due("4, of like ones the least", 0, x.store(n, 0));
+                    due("part 4, paid from TICK " + (from + 1) + ", " + h[0] + " to " + h[1], paid / 1000, x.store(n, 1));
+                    due("part 4, of like ones the least", 0, x.store(n, 0));
                 }
             }
         }
-        // "all together / 1000, cut": 288 TICKS of 1 at a PRICE of 3 are 864, of 4 are 1152.
+        // "all together / 1000, cut": a TICK's lamp of 27 at a PRICE of 37 is 999, of 25 at 40 is 1000.
+        for (int n = 1; n <= 6; n++) {
+            ColdBox x = made(STILL + "on 200;lamp 27;", "open 5 1;");
+            x.price(37);
+            due("part 4, 999 of " + n + " DAYS, cut", 999 * n / 1000, x.store(n, 1));
+            x = made(STILL + "on 200;lamp 25;", "open 5 1;");
+            x.price(40);
+            due("part 4, 1000 of " + n + " DAYS", n, x.store(n, 1));
+        }
+        // 288 TICKS of 1 at a PRICE of 3 are 864, of 4 are 1152.
         ColdBox x = still("on 200;use 1;");
         x.trouble(16);
         x.price(3);
-        due("4, cut to 0", 0, x.store(1, 1));
+        due("part 4, cut to 0", 0, x.store(1, 1));
         x.price(4);
-        due("4, cut to 1", 1, x.store(1, 1));
+        due("part 4, cut to 1", 1, x.store(1, 1));
         x.cheap(0, 24, 0);
-        due("4, PRICE v of 0", 0, x.store(6, 1));
+        due("part 4, PRICE v of 0", 0, x.store(6, 1));
         x.cheap(0, 24, 999);
-        due("4, PRICE v of 999", 288 * 6 * 999 / 1000, x.store(6, 1));
+        due("part 4, PRICE v of 999", 288 * 6 * 999 / 1000, x.store(6, 1));
         x.cheap(NONE, 1, 0);
-        due("4, there are none", 1, x.store(1, 1));
+        due("part 4, there are none", 1, x.store(1, 1));
     }
 
     private static ColdBox warmingWithout(int high) {
@@ -1154,7 +1195,7 @@ public final class EdgeTest {
 
     private static void storeEdges() {
         ColdBox x = new ColdBox();
-        due("4, no FOODS: all are within", 0, x.store(1, 0));
+        due("part 4, no FOODS: all are within", 0, x.store(1, 0));
         // "at the end of each TICK" of n DAYS.
         x = warmingWithout(9000);
         for (int n : new int[] {1, 2, 6}) {
@@ -1164,14 +1205,14 @@ public final class EdgeTest {
             int ahead = x.food(0, 1);
             x.run(1);
             int last = x.food(0, 1);
-            due("4, it warms in the last TICK", 1, last > ahead ? 1 : 0);
-            due("4, within for all TICKS", 0, warmingWithout(last).store(n, 0));
-            due("4, nothing USED, nothing paid", 0, warmingWithout(last).store(n, 1));
-            due("4, out at the last TICK's end", NONE, warmingWithout(ahead).store(n, 0));
-            due("4, out at the last TICK's end", NONE, warmingWithout(ahead).store(n, 1));
+            due("part 4, it warms in the last TICK", 1, last > ahead ? 1 : 0);
+            due("part 4, within for all TICKS", 0, warmingWithout(last).store(n, 0));
+            due("part 4, nothing USED, nothing paid", 0, warmingWithout(last).store(n, 1));
+            due("part 4, out at the last TICK's end", NONE, warmingWithout(ahead).store(n, 0));
+            due("part 4, out at the last TICK's end", NONE, warmingWithout(ahead).store(n, 1));
             ColdBox y = warmingWithout(9000);
             y.put(0, 500, 1, -3000, ahead);
-            due("4, one of two is out", NONE, y.store(n, 0));
+            due("part 4, one of two is out", NONE, y.store(n, 0));
         }
         storedByOn();
         storedByOff();
@@ -1190,15 +1231,15 @@ public final class EdgeTest {
             x.cheap(0, 24, 100);
             x.price(1);
             int d = on <= 50 ? 0 : (on - 50 + 4) / 5 * 5;
-            due("4, STORED, 'on' of " + on, d <= 40 ? d : NONE, x.store(1, 0));
-            due("4, paid, 'on' of " + on, d <= 40 ? 288 * 10 * 100 / 1000 : NONE, x.store(1, 1));
+            due("part 4, STORED, 'on' of " + on, d <= 40 ? d : NONE, x.store(1, 0));
+            due("part 4, paid, 'on' of " + on, d <= 40 ? 288 * 10 * 100 / 1000 : NONE, x.store(1, 1));
             x.cheap(NONE, 1, 100);
-            due("4, not STORED, 'on' of " + on, d == 0 ? 0 : NONE, x.store(1, 0));
+            due("part 4, not STORED, 'on' of " + on, d == 0 ? 0 : NONE, x.store(1, 0));
             x.cheap(1, 24, 100);
-            due("4, STORED too late, 'on' of " + on, d == 0 ? 0 : NONE, x.store(1, 0));
+            due("part 4, STORED too late, 'on' of " + on, d == 0 ? 0 : NONE, x.store(1, 0));
             x.cheap(0, 1, 100);
-            due("4, STORED in the first HOUR, 'on' of " + on, d <= 40 ? d : NONE, x.store(1, 0));
-            due("4, paid, 'on' of " + on, d <= 40 ? (12 * 10 * 100 + 276 * 10) / 1000 : NONE, x.store(1, 1));
+            due("part 4, STORED in the first HOUR, 'on' of " + on, d <= 40 ? d : NONE, x.store(1, 0));
+            due("part 4, paid, 'on' of " + on, d <= 40 ? (12 * 10 * 100 + 276 * 10) / 1000 : NONE, x.store(1, 1));
         }
     }
 
@@ -1218,10 +1259,10 @@ public final class EdgeTest {
             x.trouble(0);
             x.cheap(0, 24, 5);
             x.put(0, 500, 1, -3000, 500);
-            due("4, AIR 0 ahead", 500, x.warmth(0));
+            due("part 4, AIR 0 ahead", 500, x.warmth(0));
             int d = 0;
             while ((off - d) * 10 >= least) d += 5;
-            due("4, STORED, 'off' of " + off, d <= 40 ? d : NONE, x.store(6, 0));
+            due("part 4, STORED, 'off' of " + off, d <= 40 ? d : NONE, x.store(6, 0));
         }
     }
 
@@ -1232,9 +1273,9 @@ public final class EdgeTest {
         java.math.BigInteger most = java.math.BigInteger.ONE.shiftLeft(31);
         x.seed(2147483647);
         for (int i = 0; i < 100; i++) {
-            due("4, a DRAW is open for a TICK", 1, x.drawn(1, 1));
+            due("part 4, a DRAW is open for a TICK", 1, x.drawn(1, 1));
             seed = seed.multiply(java.math.BigInteger.valueOf(1103515245)).add(java.math.BigInteger.valueOf(12345)).mod(most);
-            due("4, THE SEED then", seed.longValue(), x.seed(seed.intValue()));
+            due("part 4, THE SEED then", seed.longValue(), x.seed(seed.intValue()));
         }
         // "once, if one comes again": of 20 DRAWS there are often less TICKS.
         x = made(STILL + "on 200;lamp 1;", "open 0 20;");
@@ -1248,17 +1289,17 @@ public final class EdgeTest {
             }
             x.seed((int) (from * 999999L));
             int wet = x.count(4);
-            due("4, 20 DRAWS", ticks.size(), x.drawn(1, 20));
-            due("4, WET of 20 DRAWS", 20 * ticks.size(), x.count(4) - wet);
+            due("part 4, 20 DRAWS", ticks.size(), x.drawn(1, 20));
+            due("part 4, WET of 20 DRAWS", 20 * ticks.size(), x.count(4) - wet);
             if (ticks.size() < 20) again++;
         }
-        due("4, one came again", 1, again > 0 ? 1 : 0);
+        due("part 4, one came again", 1, again > 0 ? 1 : 0);
         // m of 0: no DRAW, and no door of THE DAY's either.
         x.seed(5);
-        due("4, no DRAWS", 0, x.drawn(10, 0));
-        due("4, THE SEED stays", 5, x.seed(0));
+        due("part 4, no DRAWS", 0, x.drawn(10, 0));
+        due("part 4, THE SEED stays", 5, x.seed(0));
         x.run(288);
-        due("4, THE DAY's again", 20, x.count(1) - usedBefore(x));
+        due("part 4, THE DAY's again", 20, x.count(1) - usedBefore(x));
         drawTimes();
     }
 
@@ -1287,39 +1328,39 @@ public final class EdgeTest {
                     open += ticks.size();
                 }
                 due("17, " + n + " DAYS from TICK " + ahead, open, x.drawn(n, 7));
-                due("17, THE SEED then", next, x.seed(0));
-                due("17, TICKS", ahead + 288 * n, x.count(0));
+                due("promise 17, THE SEED then", next, x.seed(0));
+                due("promise 17, TICKS", ahead + 288 * n, x.count(0));
             }
         }
     }
 
     private static void imageEdges() {
         ColdBox x = new ColdBox();
-        due("46, not kept", NOT, x.goBack(0));
-        due("46, not kept", NOT, x.goBack(1));
-        due("45, keep", 1, x.keep(1));
-        due("46, the other is not", NOT, x.goBack(0));
-        due("46, kept", 1, x.goBack(1));
+        due("promise 46, not kept", NOT, x.goBack(0));
+        due("promise 46, not kept", NOT, x.goBack(1));
+        due("promise 45, keep", 1, x.keep(1));
+        due("promise 46, the other is not", NOT, x.goBack(0));
+        due("promise 46, kept", 1, x.goBack(1));
         x.put(0, 1, 1, 1, 1);
         x.run(9);
-        due("46, back", 1, x.goBack(1));
-        due("46, TICK", 0, x.count(0));
-        due("46, no FOODS", 0, x.count(10));
+        due("promise 46, back", 1, x.goBack(1));
+        due("promise 46, TICK", 0, x.count(0));
+        due("promise 46, no FOODS", 0, x.count(10));
         x.run(4);
-        due("46, back again", 1, x.goBack(1));
-        due("46, the IMAGE is as it was", 0, x.count(0));
+        due("promise 46, back again", 1, x.goBack(1));
+        due("promise 46, the IMAGE is as it was", 0, x.count(0));
         x.run(5);
-        due("45, kept anew", 1, x.keep(1));
+        due("promise 45, kept anew", 1, x.keep(1));
         x.run(1);
         x.goBack(1);
-        due("45, the latest", 5, x.count(0));
+        due("promise 45, the latest", 5, x.count(0));
         x.keep(0);
         x.run(2);
         x.keep(1);
         x.goBack(0);
-        due("45, two IMAGES", 5, x.count(0));
+        due("promise 45, two IMAGES", 5, x.count(0));
         x.goBack(1);
-        due("45, two IMAGES", 7, x.count(0));
+        due("promise 45, two IMAGES", 7, x.count(0));
         // FUR and TROUBLES come from the IMAGE, FURRED does not come anew.
         x = still("on 200;");
         x.trouble(2);
@@ -1327,9 +1368,9 @@ public final class EdgeTest {
         x.keep(0);
         x.trouble(0);
         x.goBack(0);
-        due("46, FUR of the IMAGE", 0, x.count(5));
-        due("46, TROUBLES of the IMAGE", 2, x.trouble(2));
-        due("46, FURRED was there", 0, x.count(5));
+        due("promise 46, FUR of the IMAGE", 0, x.count(5));
+        due("promise 46, TROUBLES of the IMAGE", 2, x.trouble(2));
+        due("promise 46, FURRED was there", 0, x.count(5));
         // What no IMAGE keeps.
         x = rich();
         x.keep(1);
@@ -1343,93 +1384,93 @@ public final class EdgeTest {
         x.forget();
         tell(x, "ab");
         x.goBack(1);
-        due("46, THE BOX stays", 9, x.told(3));
-        due("46, THE DAY stays", 1, x.opening(0, 0));
-        due("46, SEEN stays", 0, x.forget());
-        due("46, PRIOR stays", 1, x.prior(0, 1));
-        due("46, BOTHER stays", 2, x.bother(0, 2));
-        due("46, MENDING stays", 3, x.mending(0, 3));
-        due("46, PRICE stays", 4, x.price(4));
-        due("46, THE TEXT stays", 2, x.count(11));
+        due("promise 46, THE BOX stays", 9, x.told(3));
+        due("promise 46, THE DAY stays", 1, x.opening(0, 0));
+        due("promise 46, SEEN stays", 0, x.forget());
+        due("promise 46, PRIOR stays", 1, x.prior(0, 1));
+        due("promise 46, BOTHER stays", 2, x.bother(0, 2));
+        due("promise 46, MENDING stays", 3, x.mending(0, 3));
+        due("promise 46, PRICE stays", 4, x.price(4));
+        due("promise 46, THE TEXT stays", 2, x.count(11));
     }
 
     // ---- the promises, call by call
 
     private static void promise1() {
         ColdBox x = new ColdBox();
-        due("1, TROUBLES", 0, x.trouble(0));
-        due("1, current", 1, x.current(true));
-        due("1, COVERED", 0, x.cover(false));
-        due("1, THE TICK", 0, x.fresh());
-        due("1, openings", NONE, x.opening(0, 0));
-        due("1, FAULT", NONE, x.fault());
-        due("1, THE SEED", 0, x.seed(0));
-        due("1, SEEN", 0, x.forget());
-        due("1, PRICE", 30, x.price(30));
+        due("promise 1, TROUBLES", 0, x.trouble(0));
+        due("promise 1, current", 1, x.current(true));
+        due("promise 1, COVERED", 0, x.cover(false));
+        due("promise 1, THE TICK", 0, x.fresh());
+        due("promise 1, openings", NONE, x.opening(0, 0));
+        due("promise 1, FAULT", NONE, x.fault());
+        due("promise 1, THE SEED", 0, x.seed(0));
+        due("promise 1, SEEN", 0, x.forget());
+        due("promise 1, PRICE", 30, x.price(30));
         for (int k = 0; k < 7; k++) {
-            due("1, PRIOR", 100, x.prior(k, 100));
-            due("1, BOTHER", 0, x.bother(k, 0));
-            due("1, MENDING", 50, x.mending(k, 50));
+            due("promise 1, PRIOR", 100, x.prior(k, 100));
+            due("promise 1, BOTHER", 0, x.bother(k, 0));
+            due("promise 1, MENDING", 50, x.mending(k, 50));
         }
         x.trouble(16);
-        due("1, no CHEAP HOURS", 288 * 10 * 30 / 1000, x.store(1, 1));
-        for (int what = 1; what < 6; what++) due("1, heat", 0, x.heat(what));
-        for (int f = 0; f < 8; f++) due("1, no FOODS", UNKNOWN, x.food(f, 0));
+        due("promise 1, no CHEAP HOURS", 288 * 10 * 30 / 1000, x.store(1, 1));
+        for (int what = 1; what < 6; what++) due("promise 1, heat", 0, x.heat(what));
+        for (int f = 0; f < 8; f++) due("promise 1, no FOODS", UNKNOWN, x.food(f, 0));
     }
 
     private static void promises2To7() {
-        bounds("2, feed", OUTSIDE, 1, 8, (x, n) -> x.feed(n, 0x2020202020202020L));
+        bounds("promise 2, feed", OUTSIDE, 1, 8, (x, n) -> x.feed(n, 0x2020202020202020L));
         ColdBox x = new ColdBox();
-        due("2, 8 bytes, the highest first", 8, x.feed(8, 0x7365616C20343220L));
-        due("2, a byte of 8", 9, x.feed(1, 0x616263646566673BL));
-        due("2, read", 1, x.box());
-        due("2, read", 42, x.told(2));
-        due("2, bytes below 0", 8, x.feed(8, -1L));
-        due("2, they are 255", -11, x.box());
+        due("promise 2, 8 bytes, the highest first", 8, x.feed(8, 0x7365616C20343220L));
+        due("promise 2, a byte of 8", 9, x.feed(1, 0x616263646566673BL));
+        due("promise 2, read", 1, x.box());
+        due("promise 2, read", 42, x.told(2));
+        due("promise 2, bytes below 0", 8, x.feed(8, -1L));
+        due("promise 2, they are 255", -11, x.box());
         for (int length = 292; length <= 300; length++) {
             for (int n = 1; n <= 8; n++) {
                 x = new ColdBox();
                 for (int i = 0; i < length / 8; i++) x.feed(8, 0x2020202020202020L);
                 if (length % 8 > 0) x.feed(length % 8, 0x2020202020202020L);
                 due("2, " + n + " behind " + length, length + n > 300 ? FULL : length + n, x.feed(n, 0x3B3B3B3B3B3B3B3BL));
-                due("2, bytes then", length + n > 300 ? length : length + n, x.count(11));
-                if (length + n > 300) due("2, FULL: none of them came", 0, x.box());
+                due("promise 2, bytes then", length + n > 300 ? length : length + n, x.count(11));
+                if (length + n > 300) due("promise 2, FULL: none of them came", 0, x.box());
             }
         }
-        due("2, OUTSIDE ahead of FULL", OUTSIDE, full().feed(9, 0));
-        due("2, OUTSIDE ahead of FULL", OUTSIDE, full().feed(0, 0));
+        due("promise 2, OUTSIDE ahead of FULL", OUTSIDE, full().feed(9, 0));
+        due("promise 2, OUTSIDE ahead of FULL", OUTSIDE, full().feed(0, 0));
         x = full();
-        due("3, THE TEXT is empty then", 0, x.box());
-        due("3, THE TEXT is empty then", 0, x.count(11));
-        due("2, not FULL", 8, x.feed(8, 0));
+        due("promise 3, THE TEXT is empty then", 0, x.box());
+        due("promise 3, THE TEXT is empty then", 0, x.count(11));
+        due("promise 2, not FULL", 8, x.feed(8, 0));
         x = full();
-        due("4, THE TEXT is empty then", 0, x.day());
-        due("4, THE TEXT is empty then", 0, x.count(11));
+        due("promise 4, THE TEXT is empty then", 0, x.day());
+        due("promise 4, THE TEXT is empty then", 0, x.count(11));
         // 5: the FAULT of the latest box() or day().
         x = new ColdBox();
         box(x, "wall 100;");
-        due("5, of box()", 5, x.fault());
-        due("5, again", 5, x.fault());
+        due("promise 5, of box()", 5, x.fault());
+        due("promise 5, again", 5, x.fault());
         day(x, "x");
-        due("5, of day()", 0, x.fault());
+        due("promise 5, of day()", 0, x.fault());
         box(x, "wall 1");
-        due("5, of box(), the end", 6, x.fault());
+        due("promise 5, of box(), the end", 6, x.fault());
         day(x, "open 1 1;");
-        due("5, of day(), NONE", NONE, x.fault());
+        due("promise 5, of day(), NONE", NONE, x.fault());
         day(x, "open 1 1");
         box(x, "");
-        due("5, of box(), NONE", NONE, x.fault());
+        due("promise 5, of box(), NONE", NONE, x.fault());
         // 3: with a FAULT all else is as it was.
         faultLeavesAll();
-        bounds("6, told", OUTSIDE, 0, 14, ColdBox::told);
-        bounds("7, opening what", OUTSIDE, 0, 1, (y, what) -> y.opening(0, what));
-        bounds("7, opening what, not so many", OUTSIDE, 0, 1, (y, what) -> y.opening(3, what));
-        for (int i : new int[] {-1, 3, 11, 12, LOW, HIGH}) due("7, opening " + i, NONE, rich().opening(i, 0));
-        for (int i = 0; i < 3; i++) due("7, opening " + i, i == 0 ? 3 : i == 1 ? 10 : 20, rich().opening(i, 1));
+        bounds("promise 6, told", OUTSIDE, 0, 14, ColdBox::told);
+        bounds("promise 7, opening what", OUTSIDE, 0, 1, (y, what) -> y.opening(0, what));
+        bounds("promise 7, opening what, not so many", OUTSIDE, 0, 1, (y, what) -> y.opening(3, what));
+        for (int i : new int[] {-1, 3, 11, 12, LOW, HIGH}) due("promise 7, opening " + i, NONE, rich().opening(i, 0));
+        for (int i = 0; i < 3; i++) due("promise 7, opening " + i, i == 0 ? 3 : i == 1 ? 10 : 20, rich().opening(i, 1));
         x = made("", TWELVE);
-        due("7, the twelfth", 12, x.opening(11, 0));
-        due("7, no thirteenth", NONE, x.opening(12, 0));
-        due("7, no openings", NONE, new ColdBox().opening(0, 1));
+        due("promise 7, the twelfth", 12, x.opening(11, 0));
+        due("promise 7, no thirteenth", NONE, x.opening(12, 0));
+        due("promise 7, no openings", NONE, new ColdBox().opening(0, 1));
     }
 
     /** "(all else is as it was)": told by two objects with the same FAULT, the one behind a box() or day() that had it. */
@@ -1437,21 +1478,21 @@ public final class EdgeTest {
         for (String text : new String[] {" 5;wall 6;", " 5;on 5;off 5;", " 5;bulb 3;", "s 5;"}) {
             ColdBox x = rich();
             tell(x, text);
-            due("3, a FAULT of wall" + text, 1, x.box() < -10 ? 1 : 0);
+            due("promise 3, a FAULT of wall" + text, 1, x.box() < -10 ? 1 : 0);
             tell(x, "wall 5; q");
-            due("3, a FAULT as rich() has it", -11, x.box());
+            due("promise 3, a FAULT as rich() has it", -11, x.box());
             tell(x, "wall");
-            due("3, all else is as it was", 1, RICH.equals(all(x)) ? 1 : 0);
+            due("promise 3, all else is as it was", 1, RICH.equals(all(x)) ? 1 : 0);
         }
         ColdBox x = rich();
-        due("4, a FAULT", -11, x.day());
+        due("promise 4, a FAULT", -11, x.day());
         tell(x, "open 1 1; q");
-        due("4, a FAULT behind an opening", -11, x.day());
-        due("4, its place", 10, x.fault());
-        due("4, a FAULT where rich() has it", -11, day(x, "open 5 5"));
-        due("4, its place", 8, x.fault());
+        due("promise 4, a FAULT behind an opening", -11, x.day());
+        due("promise 4, its place", 10, x.fault());
+        due("promise 4, a FAULT where rich() has it", -11, day(x, "open 5 5"));
+        due("promise 4, its place", 8, x.fault());
         tell(x, "wall");
-        due("4, THE DAY is as it was", 1, all(x).equals(RICH) ? 1 : 0);
+        due("promise 4, THE DAY is as it was", 1, all(x).equals(RICH) ? 1 : 0);
     }
 
     private static ColdBox full() {
@@ -1463,215 +1504,215 @@ public final class EdgeTest {
     private static final int[] NO_FOODS = {-1, 1, 3, 7, 8, LOW, HIGH};
 
     private static void promises8To15() {
-        bounds("8, trouble", UNKNOWN, 0, 127, ColdBox::trouble);
-        due("9, fresh at first", 0, new ColdBox().fresh());
+        bounds("promise 8, trouble", UNKNOWN, 0, 127, ColdBox::trouble);
+        due("promise 9, fresh at first", 0, new ColdBox().fresh());
         ColdBox x = rich();
-        due("9, THE TICK as it was", 130, x.fresh());
-        due("9, again", 0, x.fresh());
-        due("10, on, and on", 1, x.current(true));
-        due("10, off", 1, x.current(false));
-        due("10, off, and off", 0, x.current(false));
-        due("10, on", 0, x.current(true));
-        due("11, not COVERED, FRESH", 0, x.cover(false));
-        due("11, COVERED", 0, x.cover(true));
-        due("11, COVERED twice", 1, x.cover(true));
-        due("11, not COVERED", 1, x.cover(false));
-        bounds("12, put s", UNKNOWN, 0, 2, (y, s) -> y.put(s, 0, 1, 0, 0));
-        bounds("12, put w", OUTSIDE, -3000, 9000, (y, w) -> y.put(0, w, 1, 0, 0));
-        bounds("12, put c", OUTSIDE, 1, 200, (y, c) -> y.put(0, 0, c, 0, 0));
-        bounds("12, put low", OUTSIDE, -3000, 9000, (y, low) -> y.put(0, 0, 1, low, 9000));
-        bounds("12, put high", OUTSIDE, -3000, 9000, (y, high) -> y.put(0, 0, 1, -3000, high));
-        bounds("12, put high, low", OUTSIDE, 5, 9000, (y, high) -> y.put(0, 0, 1, 5, high));
-        bounds("12, put low, high", OUTSIDE, -3000, 5, (y, low) -> y.put(0, 0, 1, low, 5));
-        due("12, the least that is not there", 1, rich().put(0, 0, 1, 0, 0));
+        due("promise 9, THE TICK as it was", 130, x.fresh());
+        due("promise 9, again", 0, x.fresh());
+        due("promise 10, on, and on", 1, x.current(true));
+        due("promise 10, off", 1, x.current(false));
+        due("promise 10, off, and off", 0, x.current(false));
+        due("promise 10, on", 0, x.current(true));
+        due("promise 11, not COVERED, FRESH", 0, x.cover(false));
+        due("promise 11, COVERED", 0, x.cover(true));
+        due("promise 11, COVERED twice", 1, x.cover(true));
+        due("promise 11, not COVERED", 1, x.cover(false));
+        bounds("promise 12, put s", UNKNOWN, 0, 2, (y, s) -> y.put(s, 0, 1, 0, 0));
+        bounds("promise 12, put w", OUTSIDE, -3000, 9000, (y, w) -> y.put(0, w, 1, 0, 0));
+        bounds("promise 12, put c", OUTSIDE, 1, 200, (y, c) -> y.put(0, 0, c, 0, 0));
+        bounds("promise 12, put low", OUTSIDE, -3000, 9000, (y, low) -> y.put(0, 0, 1, low, 9000));
+        bounds("promise 12, put high", OUTSIDE, -3000, 9000, (y, high) -> y.put(0, 0, 1, -3000, high));
+        bounds("promise 12, put high, low", OUTSIDE, 5, 9000, (y, high) -> y.put(0, 0, 1, 5, high));
+        bounds("promise 12, put low, high", OUTSIDE, -3000, 5, (y, low) -> y.put(0, 0, 1, low, 5));
+        due("promise 12, the least that is not there", 1, rich().put(0, 0, 1, 0, 0));
         for (int f = 0; f < 8; f++) {
             x = eight();
-            due("12, FULL", FULL, x.put(0, 0, 1, 0, 0));
-            due("12, FULL: nothing is PUT", 8 * 500, x.heat(2));
-            due("12, FULL: FOODS", 8, x.count(10));
-            due("13, TAKEN", 500, x.take(f));
-            due("13, TAKEN already", UNKNOWN, x.take(f));
-            due("14, TAKEN already", UNKNOWN, x.lay(f, 0));
-            due("15, TAKEN already", UNKNOWN, x.food(f, 0));
-            due("13, FOODS", 7, x.count(10));
-            due("12, its number again", f, x.put(2, 1, 1, 1, 1));
-            due("12, FULL again", FULL, x.put(0, 0, 1, 0, 0));
+            due("promise 12, FULL", FULL, x.put(0, 0, 1, 0, 0));
+            due("promise 12, FULL: nothing is PUT", 8 * 500, x.heat(2));
+            due("promise 12, FULL: FOODS", 8, x.count(10));
+            due("promise 13, TAKEN", 500, x.take(f));
+            due("promise 13, TAKEN already", UNKNOWN, x.take(f));
+            due("promise 14, TAKEN already", UNKNOWN, x.lay(f, 0));
+            due("promise 15, TAKEN already", UNKNOWN, x.food(f, 0));
+            due("promise 13, FOODS", 7, x.count(10));
+            due("promise 12, its number again", f, x.put(2, 1, 1, 1, 1));
+            due("promise 12, FULL again", FULL, x.put(0, 0, 1, 0, 0));
         }
         for (int f : NO_FOODS) {
-            refused("13, take " + f, UNKNOWN, y -> y.take(f));
-            refused("14, lay " + f, UNKNOWN, y -> y.lay(f, 0));
-            refused("15, food " + f, UNKNOWN, y -> y.food(f, 0));
+            refused("promise 13, take " + f, UNKNOWN, y -> y.take(f));
+            refused("promise 14, lay " + f, UNKNOWN, y -> y.lay(f, 0));
+            refused("promise 15, food " + f, UNKNOWN, y -> y.food(f, 0));
         }
-        bounds("14, lay s", UNKNOWN, 0, 2, (y, s) -> y.lay(0, s));
-        due("14, where it lies already", 1, rich().lay(0, 1));
-        bounds("15, food what", OUTSIDE, 0, 5, (y, what) -> y.food(0, what));
+        bounds("promise 14, lay s", UNKNOWN, 0, 2, (y, s) -> y.lay(0, s));
+        due("promise 14, where it lies already", 1, rich().lay(0, 1));
+        bounds("promise 15, food what", OUTSIDE, 0, 5, (y, what) -> y.food(0, what));
         int[][] spans = {{500, 500, 1}, {501, 501, 0}, {499, 499, 0}, {499, 501, 1}, {500, 9000, 1}, {-3000, 500, 1},
             {501, 9000, 0}, {-3000, 499, 0}};
         for (int[] span : spans) {
             x = new ColdBox();
             x.put(0, 500, 7, span[0], span[1]);
-            due("15, 500 within " + span[0] + " to " + span[1], span[2], x.food(0, 5));
+            due("promise 15, 500 within " + span[0] + " to " + span[1], span[2], x.food(0, 5));
         }
     }
 
     private static ColdBox eight() {
         ColdBox x = still("");
-        for (int f = 0; f < 8; f++) due("12, put", f, x.put(f % 3, 500, 1, 500, 500));
+        for (int f = 0; f < 8; f++) due("promise 12, put", f, x.put(f % 3, 500, 1, 500, 500));
         return x;
     }
 
     private static void promises16To21() {
-        bounds("16, run", OUTSIDE, 1, 2880, ColdBox::run);
+        bounds("promise 16, run", OUTSIDE, 1, 2880, ColdBox::run);
         ColdBox x = still("on 50;");
-        due("16, on in all", 2880, x.run(2880));
-        due("16, TICKS", 2880, x.count(0));
-        due("16, on in one", 1, x.run(1));
-        due("16, on in none", 0, still("on 51;").run(2880));
-        bounds("17, drawn n", OUTSIDE, 1, 10, (y, n) -> y.drawn(n, 20));
-        bounds("17, drawn m", OUTSIDE, 0, 20, (y, m) -> y.drawn(1, m));
-        bounds("18, warmth", UNKNOWN, 0, 3, ColdBox::warmth);
-        bounds("19, heat", OUTSIDE, 0, 5, ColdBox::heat);
-        bounds("20, count", OUTSIDE, 0, 11, ColdBox::count);
+        due("promise 16, on in all", 2880, x.run(2880));
+        due("promise 16, TICKS", 2880, x.count(0));
+        due("promise 16, on in one", 1, x.run(1));
+        due("promise 16, on in none", 0, still("on 51;").run(2880));
+        bounds("promise 17, drawn n", OUTSIDE, 1, 10, (y, n) -> y.drawn(n, 20));
+        bounds("promise 17, drawn m", OUTSIDE, 0, 20, (y, m) -> y.drawn(1, m));
+        bounds("promise 18, warmth", UNKNOWN, 0, 3, ColdBox::warmth);
+        bounds("promise 19, heat", OUTSIDE, 0, 5, ColdBox::heat);
+        bounds("promise 20, count", OUTSIDE, 0, 11, ColdBox::count);
         // 19: of all CELLS together, FOODS, too, those only that are there.
         x = still("");
-        due("19, no FOODS", 3 * 10000 - 40000, x.heat(0));
+        due("promise 19, no FOODS", 3 * 10000 - 40000, x.heat(0));
         x.put(0, 9000, 200, 0, 0);
         x.put(0, -3000, 200, 0, 0);
-        due("19, FOODS", -10000 + 6000 * 200, x.heat(0));
-        due("19, PUT", 6000 * 200, x.heat(2));
+        due("promise 19, FOODS", -10000 + 6000 * 200, x.heat(0));
+        due("promise 19, PUT", 6000 * 200, x.heat(2));
         x.take(0);
-        due("19, one TAKEN", -10000 - 3000 * 200, x.heat(0));
-        due("19, TAKEN", 9000 * 200, x.heat(5));
+        due("promise 19, one TAKEN", -10000 - 3000 * 200, x.heat(0));
+        due("promise 19, TAKEN", 9000 * 200, x.heat(5));
         x.take(1);
-        due("19, all TAKEN", -10000, x.heat(0));
-        due("19, TAKEN", 6000 * 200, x.heat(5));
-        due("19, PUT stays", 6000 * 200, x.heat(2));
+        due("promise 19, all TAKEN", -10000, x.heat(0));
+        due("promise 19, TAKEN", 6000 * 200, x.heat(5));
+        due("promise 19, PUT stays", 6000 * 200, x.heat(2));
         // 21: "to a WARMTH of 1000, if it is less": 999 and 1000.
         x = made("wall 1;seal 0;mix 0;cold 0;room 80;on 200;", "");
-        due("21, no FUR", 0, x.thaw());
-        due("21, came IN", 3 * 10000 + 80000, x.heat(1));
-        due("21, no FUR again", 0, x.thaw());
-        due("21, 1000 is not less", 3 * 10000 + 80000, x.heat(1));
+        due("promise 21, no FUR", 0, x.thaw());
+        due("promise 21, came IN", 3 * 10000 + 80000, x.heat(1));
+        due("promise 21, no FUR again", 0, x.thaw());
+        due("promise 21, 1000 is not less", 3 * 10000 + 80000, x.heat(1));
         x.run(1);
-        for (int s = 0; s < 3; s++) due("21, AIR of HEAT 19998", 999, x.warmth(s));
+        for (int s = 0; s < 3; s++) due("promise 21, AIR of HEAT 19998", 999, x.warmth(s));
         x.thaw();
-        due("21, 999 is less: what went comes IN", 3 * 10000 + 80000, x.heat(1));
-        due("21, all HEAT", 3 * 20000 + 40000, x.heat(0));
+        due("promise 21, 999 is less: what went comes IN", 3 * 10000 + 80000, x.heat(1));
+        due("promise 21, all HEAT", 3 * 20000 + 40000, x.heat(0));
         x = made("wall 0;seal 0;mix 0;cold 0;room 80;on 200;lamp 3;", "");
         x.thaw();
         x.trouble(32);
         x.run(1);
         x.thaw();
-        due("21, HEAT of 20015 stays", 3 * 20000 + 40000 + 15, x.heat(0));
+        due("promise 21, HEAT of 20015 stays", 3 * 20000 + 40000 + 15, x.heat(0));
         x = ofFur(9999);
-        due("21, FUR of 9999", 9999, x.thaw());
-        due("21, DRAINED", 9999, x.count(6));
-        due("21, no TICK", x.count(0), x.fresh());
+        due("promise 21, FUR of 9999", 9999, x.thaw());
+        due("promise 21, DRAINED", 9999, x.count(6));
+        due("promise 21, no TICK", x.count(0), x.fresh());
     }
 
     private static void promises22To31() {
-        bounds("22, sign set", UNKNOWN, 0, 127, (x, set) -> x.sign(set, 1, 0));
-        bounds("22, sign n", OUTSIDE, 1, 6, (x, n) -> x.sign(0, n, 0));
-        bounds("22, sign what", UNKNOWN, 0, 6, (x, what) -> x.sign(0, 1, what));
-        bounds("23, seen what", UNKNOWN, 0, 6, (x, what) -> x.seen(what, 0, 1));
-        bounds("23, seen v", OUTSIDE, -99999, 99999, (x, v) -> x.seen(0, v, 1));
-        bounds("23, seen e", OUTSIDE, 1, 999, (x, e) -> x.seen(0, 0, e));
+        bounds("promise 22, sign set", UNKNOWN, 0, 127, (x, set) -> x.sign(set, 1, 0));
+        bounds("promise 22, sign n", OUTSIDE, 1, 6, (x, n) -> x.sign(0, n, 0));
+        bounds("promise 22, sign what", UNKNOWN, 0, 6, (x, what) -> x.sign(0, 1, what));
+        bounds("promise 23, seen what", UNKNOWN, 0, 6, (x, what) -> x.seen(what, 0, 1));
+        bounds("promise 23, seen v", OUTSIDE, -99999, 99999, (x, v) -> x.seen(0, v, 1));
+        bounds("promise 23, seen e", OUTSIDE, 1, 999, (x, e) -> x.seen(0, 0, e));
         ColdBox x = new ColdBox();
-        due("24, none SEEN", 0, x.forget());
+        due("promise 24, none SEEN", 0, x.forget());
         for (int what = 6; what >= 0; what--) {
-            due("23, how many", 7 - what, x.seen(what, 0, 1));
-            due("23, SEEN again", 7 - what, x.seen(what, 1, 2));
+            due("promise 23, how many", 7 - what, x.seen(what, 0, 1));
+            due("promise 23, SEEN again", 7 - what, x.seen(what, 1, 2));
         }
-        due("24, all SEEN", 7, x.forget());
-        due("24, none SEEN", 0, x.forget());
-        bounds("25, prior k", UNKNOWN, 0, 6, (y, k) -> y.prior(k, 0));
-        bounds("25, prior p", OUTSIDE, 0, 1000, (y, p) -> y.prior(0, p));
-        bounds("26, bother what", UNKNOWN, 0, 6, (y, what) -> y.bother(what, 0));
-        bounds("26, bother b", OUTSIDE, 0, 999, (y, b) -> y.bother(0, b));
+        due("promise 24, all SEEN", 7, x.forget());
+        due("promise 24, none SEEN", 0, x.forget());
+        bounds("promise 25, prior k", UNKNOWN, 0, 6, (y, k) -> y.prior(k, 0));
+        bounds("promise 25, prior p", OUTSIDE, 0, 1000, (y, p) -> y.prior(0, p));
+        bounds("promise 26, bother what", UNKNOWN, 0, 6, (y, what) -> y.bother(what, 0));
+        bounds("promise 26, bother b", OUTSIDE, 0, 999, (y, b) -> y.bother(0, b));
         for (int set = -2; set < 130; set++) {
             int s = set;
             boolean is = set >= 0 && set < 128 && Integer.bitCount(set) < 3;
-            if (is) due("27, odds " + set, 1, x.odds(set, 1) > 0 ? 1 : 0);
-            else due("27, odds " + set, UNKNOWN, x.odds(s, 1));
+            if (is) due("promise 27, odds " + set, 1, x.odds(set, 1) > 0 ? 1 : 0);
+            else due("promise 27, odds " + set, UNKNOWN, x.odds(s, 1));
         }
-        refused("27, three TROUBLES", UNKNOWN, y -> y.odds(7, 1));
-        refused("27, three TROUBLES ahead of n", UNKNOWN, y -> y.odds(112, 0));
-        refused("27, LOW", UNKNOWN, y -> y.odds(LOW, 1));
-        refused("27, a bit of no TROUBLE", UNKNOWN, y -> y.odds(LOW + 1, 1));
-        bounds("27, odds n", OUTSIDE, 1, 6, (y, n) -> y.odds(3, n));
-        bounds("28, each k", UNKNOWN, 0, 6, (y, k) -> y.each(k, 1));
-        bounds("28, each n", OUTSIDE, 1, 6, (y, n) -> y.each(0, n));
+        refused("promise 27, three TROUBLES", UNKNOWN, y -> y.odds(7, 1));
+        refused("promise 27, three TROUBLES ahead of n", UNKNOWN, y -> y.odds(112, 0));
+        refused("promise 27, LOW", UNKNOWN, y -> y.odds(LOW, 1));
+        refused("promise 27, a bit of no TROUBLE", UNKNOWN, y -> y.odds(LOW + 1, 1));
+        bounds("promise 27, odds n", OUTSIDE, 1, 6, (y, n) -> y.odds(3, n));
+        bounds("promise 28, each k", UNKNOWN, 0, 6, (y, k) -> y.each(k, 1));
+        bounds("promise 28, each n", OUTSIDE, 1, 6, (y, n) -> y.each(0, n));
         for (int k = 0; k < 7; k++) {
             long together = 0;
             for (int j = 0; j < 7; j++) together += x.odds(1 << k | 1 << j, 1);
-            due("28, ODDS of all SETS with it together", together, x.each(k, 1));
+            due("promise 28, ODDS of all SETS with it together", together, x.each(k, 1));
         }
-        bounds("29, tells what", UNKNOWN, 0, 6, (y, what) -> y.tells(what, 1));
-        bounds("29, tells n", OUTSIDE, 1, 6, (y, n) -> y.tells(0, n));
-        bounds("30, next n", OUTSIDE, 1, 6, ColdBox::next);
+        bounds("promise 29, tells what", UNKNOWN, 0, 6, (y, what) -> y.tells(what, 1));
+        bounds("promise 29, tells n", OUTSIDE, 1, 6, (y, n) -> y.tells(0, n));
+        bounds("promise 30, next n", OUTSIDE, 1, 6, ColdBox::next);
         x = new ColdBox();
         for (int what = 0; what < 7; what++) x.seen(what, 0, 1);
-        due("30, all are SEEN", NONE, x.next(1));
-        due("30, all are SEEN, n", OUTSIDE, x.next(0));
-        bounds("31, makes set", UNKNOWN, 0, 127, (y, set) -> y.makes(set, 0));
-        bounds("31, makes what", OUTSIDE, 0, 1, (y, what) -> y.makes(0, what));
+        due("promise 30, all are SEEN", NONE, x.next(1));
+        due("promise 30, all are SEEN, n", OUTSIDE, x.next(0));
+        bounds("promise 31, makes set", UNKNOWN, 0, 127, (y, set) -> y.makes(set, 0));
+        bounds("promise 31, makes what", OUTSIDE, 0, 1, (y, what) -> y.makes(0, what));
     }
 
     private static void promises32To38() {
-        bounds("32, mending k", UNKNOWN, 0, 6, (x, k) -> x.mending(k, 0));
-        bounds("32, mending c", OUTSIDE, 0, 999, (x, c) -> x.mending(0, c));
-        bounds("33, price", OUTSIDE, 0, 999, ColdBox::price);
-        bounds("34, year", UNKNOWN, 0, 127, ColdBox::year);
-        bounds("35, saves set", UNKNOWN, 0, 127, (x, set) -> x.saves(set, 0));
-        bounds("35, saves part", UNKNOWN, 0, 127, (x, part) -> x.saves(127, part));
-        for (int part : new int[] {1, 4, 15, 64, 127}) refused("35, no part: " + part, NOT, x -> x.saves(2 + 8 + 16, part));
-        bounds("36, best set", UNKNOWN, 0, 127, (x, set) -> x.best(set, 0, 0));
-        bounds("36, best c", OUTSIDE, 0, 9999, (x, c) -> x.best(1, c, 0));
-        bounds("36, best what", OUTSIDE, 0, 2, (x, what) -> x.best(1, 0, what));
-        bounds("37, pays set", UNKNOWN, 0, 127, (x, set) -> x.pays(set, 0, 0));
-        bounds("37, pays c", OUTSIDE, 0, 99999, (x, c) -> x.pays(0, c, 0));
-        bounds("37, pays u", OUTSIDE, 0, 9999, (x, u) -> x.pays(0, 0, u));
-        bounds("38, ice set", UNKNOWN, 0, 127, (x, set) -> x.ice(set, 1, 0));
-        bounds("38, ice n", OUTSIDE, 1, 20, (x, n) -> x.ice(0, n, 0));
-        bounds("38, ice b", OUTSIDE, 0, 999, (x, b) -> x.ice(0, 2, b));
-        refused("36, UNKNOWN ahead of OUTSIDE", UNKNOWN, x -> x.best(128, 10000, 3));
-        refused("37, UNKNOWN ahead of OUTSIDE", UNKNOWN, x -> x.pays(-1, -1, -1));
-        refused("38, UNKNOWN ahead of OUTSIDE", UNKNOWN, x -> x.ice(128, 0, -1));
-        refused("32, UNKNOWN ahead of OUTSIDE", UNKNOWN, x -> x.mending(7, 1000));
-        refused("31, UNKNOWN ahead of OUTSIDE", UNKNOWN, x -> x.makes(128, 2));
-        refused("25, UNKNOWN ahead of OUTSIDE", UNKNOWN, x -> x.prior(7, 1001));
-        refused("26, UNKNOWN ahead of OUTSIDE", UNKNOWN, x -> x.bother(7, 1000));
-        refused("28, UNKNOWN ahead of OUTSIDE", UNKNOWN, x -> x.each(7, 7));
-        refused("29, UNKNOWN ahead of OUTSIDE", UNKNOWN, x -> x.tells(7, 7));
-        refused("23, UNKNOWN ahead of OUTSIDE", UNKNOWN, x -> x.seen(7, 100000, 0));
+        bounds("promise 32, mending k", UNKNOWN, 0, 6, (x, k) -> x.mending(k, 0));
+        bounds("promise 32, mending c", OUTSIDE, 0, 999, (x, c) -> x.mending(0, c));
+        bounds("promise 33, price", OUTSIDE, 0, 999, ColdBox::price);
+        bounds("promise 34, year", UNKNOWN, 0, 127, ColdBox::year);
+        bounds("promise 35, saves set", UNKNOWN, 0, 127, (x, set) -> x.saves(set, 0));
+        bounds("promise 35, saves part", UNKNOWN, 0, 127, (x, part) -> x.saves(127, part));
+        for (int part : new int[] {1, 4, 15, 64, 127}) refused("promise 35, no part: " + part, NOT, x -> x.saves(2 + 8 + 16, part));
+        bounds("promise 36, best set", UNKNOWN, 0, 127, (x, set) -> x.best(set, 0, 0));
+        bounds("promise 36, best c", OUTSIDE, 0, 9999, (x, c) -> x.best(1, c, 0));
+        bounds("promise 36, best what", OUTSIDE, 0, 2, (x, what) -> x.best(1, 0, what));
+        bounds("promise 37, pays set", UNKNOWN, 0, 127, (x, set) -> x.pays(set, 0, 0));
+        bounds("promise 37, pays c", OUTSIDE, 0, 99999, (x, c) -> x.pays(0, c, 0));
+        bounds("promise 37, pays u", OUTSIDE, 0, 9999, (x, u) -> x.pays(0, 0, u));
+        bounds("promise 38, ice set", UNKNOWN, 0, 127, (x, set) -> x.ice(set, 1, 0));
+        bounds("promise 38, ice n", OUTSIDE, 1, 20, (x, n) -> x.ice(0, n, 0));
+        bounds("promise 38, ice b", OUTSIDE, 0, 999, (x, b) -> x.ice(0, 2, b));
+        refused("promise 36, UNKNOWN ahead of OUTSIDE", UNKNOWN, x -> x.best(128, 10000, 3));
+        refused("promise 37, UNKNOWN ahead of OUTSIDE", UNKNOWN, x -> x.pays(-1, -1, -1));
+        refused("promise 38, UNKNOWN ahead of OUTSIDE", UNKNOWN, x -> x.ice(128, 0, -1));
+        refused("promise 32, UNKNOWN ahead of OUTSIDE", UNKNOWN, x -> x.mending(7, 1000));
+        refused("promise 31, UNKNOWN ahead of OUTSIDE", UNKNOWN, x -> x.makes(128, 2));
+        refused("promise 25, UNKNOWN ahead of OUTSIDE", UNKNOWN, x -> x.prior(7, 1001));
+        refused("promise 26, UNKNOWN ahead of OUTSIDE", UNKNOWN, x -> x.bother(7, 1000));
+        refused("promise 28, UNKNOWN ahead of OUTSIDE", UNKNOWN, x -> x.each(7, 7));
+        refused("promise 29, UNKNOWN ahead of OUTSIDE", UNKNOWN, x -> x.tells(7, 7));
+        refused("promise 23, UNKNOWN ahead of OUTSIDE", UNKNOWN, x -> x.seen(7, 100000, 0));
     }
 
     private static void promises39To46() {
         for (int f : NO_FOODS) {
-            if (f != NONE) refused("39, lying " + f, UNKNOWN, x -> x.lying(f));
-            refused("41, without " + f, UNKNOWN, x -> x.without(f));
+            if (f != NONE) refused("promise 39, lying " + f, UNKNOWN, x -> x.lying(f));
+            refused("promise 41, without " + f, UNKNOWN, x -> x.without(f));
         }
         ColdBox seven = still("");
         for (int f = 0; f < 7; f++) seven.put(0, 500, 1, 0, 0);
-        due("39, seven FOODS", NOT, seven.lying(NONE));
-        due("39, seven FOODS, one of them", NOT, seven.lying(0));
-        due("39, seven FOODS, another", UNKNOWN, seven.lying(7));
-        due("40, seven FOODS", 0, seven.bulb(0));
-        due("41, seven FOODS", 0, seven.without(6));
-        bounds("40, bulb", OUTSIDE, 0, 1, ColdBox::bulb);
-        for (int a : new int[] {-2, 24, 25, LOW, HIGH}) refused("42, cheap a " + a, OUTSIDE, x -> x.cheap(a, 24, 0));
-        for (int a : new int[] {NONE, 0, 23}) due("42, cheap a " + a, 1, rich().cheap(a, 24, 0));
-        bounds("42, cheap b", OUTSIDE, 1, 24, (x, b) -> x.cheap(0, b, 0));
-        bounds("42, cheap b above a", OUTSIDE, 13, 24, (x, b) -> x.cheap(12, b, 0));
-        bounds("42, cheap v", OUTSIDE, 0, 999, (x, v) -> x.cheap(0, 24, v));
-        bounds("42, cheap v, none", OUTSIDE, 0, 999, (x, v) -> x.cheap(NONE, 24, v));
-        refused("42, cheap from 24", OUTSIDE, x -> x.cheap(24, 24, 0));
-        bounds("43, store n", OUTSIDE, 1, 6, (x, n) -> x.store(n, 0));
-        bounds("43, store what", OUTSIDE, 0, 1, (x, what) -> x.store(1, what));
-        bounds("44, seed", OUTSIDE, 0, HIGH, ColdBox::seed);
-        bounds("45, keep", UNKNOWN, 0, 1, ColdBox::keep);
-        for (int i : new int[] {-1, 2, LOW, HIGH}) refused("46, goBack " + i, UNKNOWN, x -> x.goBack(i));
-        refused("46, it was not kept", NOT, x -> x.goBack(1));
-        due("46, it was kept", 1, rich().goBack(0));
+        due("promise 39, seven FOODS", NOT, seven.lying(NONE));
+        due("promise 39, seven FOODS, one of them", NOT, seven.lying(0));
+        due("promise 39, seven FOODS, another", UNKNOWN, seven.lying(7));
+        due("promise 40, seven FOODS", 0, seven.bulb(0));
+        due("promise 41, seven FOODS", 0, seven.without(6));
+        bounds("promise 40, bulb", OUTSIDE, 0, 1, ColdBox::bulb);
+        for (int a : new int[] {-2, 24, 25, LOW, HIGH}) refused("promise 42, cheap a " + a, OUTSIDE, x -> x.cheap(a, 24, 0));
+        for (int a : new int[] {NONE, 0, 23}) due("promise 42, cheap a " + a, 1, rich().cheap(a, 24, 0));
+        bounds("promise 42, cheap b", OUTSIDE, 1, 24, (x, b) -> x.cheap(0, b, 0));
+        bounds("promise 42, cheap b above a", OUTSIDE, 13, 24, (x, b) -> x.cheap(12, b, 0));
+        bounds("promise 42, cheap v", OUTSIDE, 0, 999, (x, v) -> x.cheap(0, 24, v));
+        bounds("promise 42, cheap v, none", OUTSIDE, 0, 999, (x, v) -> x.cheap(NONE, 24, v));
+        refused("promise 42, cheap from 24", OUTSIDE, x -> x.cheap(24, 24, 0));
+        bounds("promise 43, store n", OUTSIDE, 1, 6, (x, n) -> x.store(n, 0));
+        bounds("promise 43, store what", OUTSIDE, 0, 1, (x, what) -> x.store(1, what));
+        bounds("promise 44, seed", OUTSIDE, 0, HIGH, ColdBox::seed);
+        bounds("promise 45, keep", UNKNOWN, 0, 1, ColdBox::keep);
+        for (int i : new int[] {-1, 2, LOW, HIGH}) refused("promise 46, goBack " + i, UNKNOWN, x -> x.goBack(i));
+        refused("promise 46, it was not kept", NOT, x -> x.goBack(1));
+        due("promise 46, it was kept", 1, rich().goBack(0));
     }
 }
