@@ -731,7 +731,7 @@ public final class BoxTest {
         x.trouble(2);
         x.put(0, 9000, 200, 0, 1);
         int before = 0;
-        while (x.warmth(3) < 0 && x.count(0) < 1000) {
+        for (int t = 0; t < 150 && x.warmth(3) < 0; t++) {
             before = x.count(5);
             x.run(1);
         }

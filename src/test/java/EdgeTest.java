@@ -55,12 +55,13 @@ public final class EdgeTest {
         if (wrong != 0) System.exit(1);
     }
 
+    /** Of a class that is wrong in much the first faults are enough. */
     private static void due(String what, long want, long got) {
         asked++;
-        if (got != want) {
-            wrong++;
-            System.out.println(what + " answered " + got + ", due is " + want);
-        }
+        if (got == want) return;
+        wrong++;
+        System.out.println(what + " answered " + got + ", due is " + want);
+        if (wrong >= 100) System.exit(1);
     }
 
     private static void tell(ColdBox x, String text) {
@@ -168,10 +169,11 @@ public final class EdgeTest {
         long ask(ColdBox x, int v);
     }
 
-    /** A number below its least, above its most, and the least and most that there are. */
+    /** A number below its least, above its most, and the least and most that there are (not if one just above is taken). */
     private static void bounds(String what, long refusal, int least, int most, OfOne call) {
+        int before = wrong;
         for (int v : new int[] {least - 1, most + 1, LOW, HIGH}) {
-            if (v >= least && v <= most) continue;
+            if (v >= least && v <= most || wrong > before) continue;
             refused(what + " " + v, refusal, x -> call.ask(x, v));
         }
         for (int v : new int[] {least, most}) due(what + " " + v + " is taken", 1, call.ask(rich(), v) > UNKNOWN ? 1 : 0);
@@ -488,7 +490,7 @@ public final class EdgeTest {
     private static ColdBox ofFur(int fur) {
         ColdBox x = made("wall 0;seal 99;mix 0;cold 0;room 50;on 200;", "");
         x.trouble(1);
-        while (x.count(5) + 408 <= fur) x.run(1);
+        if (fur >= 408) x.run(fur / 408);
         if (fur == 9999) x.run(1);
         x.trouble(0);
         int left = fur - x.count(5);
@@ -1261,7 +1263,7 @@ public final class EdgeTest {
             x.put(0, 500, 1, -3000, 500);
             due("part 4, AIR 0 ahead", 500, x.warmth(0));
             int d = 0;
-            while ((off - d) * 10 >= least) d += 5;
+            while (d <= 40 && (off - d) * 10 >= least) d += 5;
             due("part 4, STORED, 'off' of " + off, d <= 40 ? d : NONE, x.store(6, 0));
         }
     }
